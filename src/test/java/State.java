@@ -3,7 +3,6 @@ import java.util.Map;
 
 /** Everything that can be read of a log, by name. */
 final class State {
-    static final String[] WRITER = {"wEnd", "wTag", "wSlot", "wEpoch"};
     private static final String[] HEADER_FIELDS = {"hEnd", "hKey", "hTag", "hEpoch"};
     private static final String[] WRITER_FIELDS = {
         "wEnd", "wTag", "wSlot", "wEpoch", "budget", "crashed", "started", "capacity", "epochLength"};
