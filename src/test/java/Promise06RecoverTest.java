@@ -96,15 +96,14 @@ public final class Promise06RecoverTest {
     /** Records with a right tag, but wrong in kind, order or sequence. */
     private static void forgedRecords(Checks checks) {
         int key = Model.ratchet(KEY);
-        int[][] forged = {{0, 3, 3}, {255, 3, 3}, {255, 3, 1}, {9, 2, 3}, {9, 4, 4}, {9, 3, 4}, {254, 3, 4}, {1, 3, 4}};
+        int[][] forged = {{0, 3, 3}, {255, 3, 3}, {9, 2, 3}, {9, 4, 3}, {9, 3, 4}, {254, 3, 4}, {1, 3, 4}};
         for (int[] row : forged) {
             SealedAuditLog log = Logs.filled(8, 2, KEY, 3);
             int prev = Logs.storedTag(log, 2);
             Logs.tamper(log, 3, Logs.record(key, prev, row[0], row[1], 1));
             log.crash();
-            boolean good = row[0] > 0 && row[0] < 255 && row[1] == 3;
-            checks.due("recover with " + row[0] + ", " + row[1], log.recover(), good ? 4 : 3);
-            checks.due("wSlot", log.writer(SealedAuditLog.W_SLOT), good ? 1 : 0);
+            checks.due("recover with " + row[0] + ", " + row[1], log.recover(), row[2]);
+            checks.due("wSlot", log.writer(SealedAuditLog.W_SLOT), row[2] - 3);
         }
         // Sealed with the epoch's old key: not accepted.
         SealedAuditLog log = Logs.filled(8, 2, KEY, 3);
