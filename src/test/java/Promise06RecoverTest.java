@@ -11,12 +11,15 @@ public final class Promise06RecoverTest {
         for (int steps = 0; steps <= 16; steps++) {
             afterCrashBeforeStep(checks, steps);
         }
+        checkpointJustFits(checks);
         tornTail(checks);
         damagedRecords(checks);
         forgedRecords(checks);
         beforeTheHeaderNothingIsRead(checks);
         droppedBehindTheHeader(checks);
-        severalEpochsStored(checks);
+        for (int epoch : new int[] {0, 255, 256, 65535, 65536}) {
+            severalEpochsStored(checks, epoch);
+        }
         wrongCheckpoints(checks);
         noRoomForTheCheckpoint(checks);
         leavesTheReason(checks);
@@ -36,7 +39,7 @@ public final class Promise06RecoverTest {
     /** Between calls, a crash takes nothing that recover does not bring back. */
     private static void nothingToLose(Checks checks) {
         for (int length = 2; length <= 8; length++) {
-            for (int count = 0; count <= 20; count++) {
+            for (int count = 0; count <= 31; count++) {
                 SealedAuditLog log = Logs.filled(32, length, KEY, count);
                 Map<String, Integer> before = State.of(log);
                 log.crash();
@@ -58,6 +61,17 @@ public final class Promise06RecoverTest {
         checks.due(call, log.recover(), steps < 8 ? 4 : 6);
         checks.unchanged(call, due, log);
         checks.due(call + ": verify", log.verify(), SealedAuditLog.V_ACCEPT);
+    }
+
+    private static void checkpointJustFits(Checks checks) {
+        Map<String, Integer> due = State.of(Logs.filled(6, 2, KEY, 4));
+        for (int steps = 8; steps <= 16; steps++) {
+            SealedAuditLog log = Logs.filled(6, 2, KEY, 3);
+            log.armCrash(steps);
+            log.append(4, 1004);
+            checks.due("recover at the log's end", log.recover(), 6);
+            checks.unchanged("recover at the log's end", due, log);
+        }
     }
 
     private static void tornTail(Checks checks) {
@@ -135,16 +149,33 @@ public final class Promise06RecoverTest {
         checks.bytes("dropped bytes stay zero", log, 16, 0, 0, 0, 0, 0, 0, 0, 0);
     }
 
-    /** recover goes on over several checkpoints, each with the next key. */
-    private static void severalEpochsStored(Checks checks) {
-        SealedAuditLog whole = Logs.filled(16, 2, KEY, 7);
-        Map<String, Integer> due = State.of(whole);
-        SealedAuditLog log = Logs.crashed(16, 2, KEY, 0);
-        for (int i = 0; i < 10; i++) {
+    /** recover goes on over several checkpoints, each with the next key and epoch number. */
+    private static void severalEpochsStored(Checks checks, int epoch) {
+        SealedAuditLog whole = inEpoch(epoch);
+        SealedAuditLog log = inEpoch(epoch);
+        int first = log.header(SealedAuditLog.H_END) / 8;
+        for (int n = 1; n <= 7; n++) {
+            whole.append(n, n);
+        }
+        log.crash();
+        for (int i = first; i < first + 10; i++) {
             Logs.plant(log, i, stored(whole, i));
         }
-        checks.due("recover", log.recover(), 10);
-        checks.unchanged("recover over three epochs", due, log);
+        checks.due("recover", log.recover(), first + 10);
+        checks.unchanged("recover over three epochs", State.of(whole), log);
+    }
+
+    /** A log that begins this epoch; earlier records are dropped to make room. */
+    private static SealedAuditLog inEpoch(int epoch) {
+        SealedAuditLog log = Logs.started(16, 2, KEY);
+        for (int e = 0; e < epoch; e++) {
+            log.dropRecord(0);
+            log.dropRecord(0);
+            log.dropRecord(0);
+            log.append(1, 1);
+            log.append(2, 2);
+        }
+        return log;
     }
 
     private static int[] stored(SealedAuditLog log, int index) {
