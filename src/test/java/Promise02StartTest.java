@@ -2,47 +2,88 @@ import java.util.Map;
 
 /** Promise 2: start succeeds once, with any key, and touches only the keys and the header. */
 public final class Promise02StartTest {
+    private static final int[] KEYS = {0, 1, -1, 12345, 0x6A09E667, Integer.MIN_VALUE, Integer.MAX_VALUE};
+
     public static void main(String[] args) {
         Checks checks = new Checks();
-        for (int key : new int[] {0, 1, -1, 12345, Integer.MIN_VALUE, Integer.MAX_VALUE}) {
-            startsOnce(checks, key);
-        }
+        anyKey(checks);
+        refusedWhenStarted(checks);
+        keyZeroStartsToo(checks);
         keepsTheBudget(checks);
-        refusedAfterCrashes(checks);
+        keepsTheRest(checks);
+        onceAlsoAfterCrashes(checks);
         checks.end();
     }
 
-    private static void startsOnce(Checks checks, int key) {
-        SealedAuditLog log = new SealedAuditLog(8, 2);
-        Map<String, Integer> before = State.of(log);
-        checks.due("start(" + key + ")", log.start(key), true);
-        checks.onlyChanged("start(" + key + ")", before, log, "started", "hKey");
-        checks.due("started", log.writer(SealedAuditLog.W_STARTED), 1);
-        checks.header("start(" + key + ")", log, 0, key, 0, 0);
-        before = State.of(log);
-        checks.due("second start", log.start(key + 1), false);
-        checks.unchanged("second start", before, log);
+    private static void anyKey(Checks checks) {
+        checks.says("started = true, vKey = key, hKey = key, hEnd = hTag = hEpoch = 0, and it answers true. "
+            + "Any int key is allowed.");
+        for (int key : KEYS) {
+            SealedAuditLog log = new SealedAuditLog(8, 2);
+            checks.due("start(" + key + ")", log.start(key), true);
+            checks.due("started", log.writer(SealedAuditLog.W_STARTED), 1);
+            checks.header("start(" + key + ")", log, 0, key, 0, 0);
+            log.append(1, 1);
+            log.append(2, 2);
+            log.append(3, 3);
+            checks.due("vKey is the key too: verify()", log.verify(), SealedAuditLog.V_ACCEPT);
+        }
+    }
+
+    private static void refusedWhenStarted(Checks checks) {
+        checks.says("if started is true, it answers false and nothing changes");
+        Map<String, SealedAuditLog> logs = Logs.inEveryState(8, 2, 77);
+        logs.remove("new");
+        logs.forEach((state, log) -> {
+            checks.refused("start(77), " + state, log, () -> log.start(77));
+            for (int key : KEYS) {
+                checks.refused("start(" + key + "), " + state, log, () -> log.start(key));
+            }
+        });
+    }
+
+    private static void keyZeroStartsToo(Checks checks) {
+        checks.says("if started is true, it answers false (the key 0 starts a log like any other)");
+        SealedAuditLog log = Logs.started(8, 2, 0);
+        checks.refused("start(5) after start(0)", log, () -> log.start(5));
+        checks.refused("start(0) after start(0)", log, () -> log.start(0));
         log.append(1, 1);
-        checks.due("second start, later", log.start(key + 1), false);
-        checks.due("the verifier has the first key", log.verify(), SealedAuditLog.V_ACCEPT);
+        checks.due("vKey stays 0: verify()", log.verify(), SealedAuditLog.V_ACCEPT);
     }
 
     private static void keepsTheBudget(Checks checks) {
-        SealedAuditLog log = new SealedAuditLog(8, 2);
-        log.armCrash(5);
-        checks.due("start", log.start(3), true);
-        checks.mode("start while armed", log, 5, false);
+        checks.says("budget is not changed");
+        for (int budget : new int[] {-1, 0, 1, 5, Integer.MAX_VALUE}) {
+            SealedAuditLog log = new SealedAuditLog(8, 2);
+            log.armCrash(budget);
+            checks.due("start", log.start(3), true);
+            checks.mode("start with budget " + budget, log, budget, false);
+        }
     }
 
-    private static void refusedAfterCrashes(Checks checks) {
+    private static void keepsTheRest(Checks checks) {
+        checks.says("the log bytes, the writer state, crashed and reason are not changed");
+        for (int key : KEYS) {
+            SealedAuditLog log = new SealedAuditLog(8, 2);
+            Map<String, Integer> before = State.of(log);
+            log.start(key);
+            checks.onlyChanged("start(" + key + ")", before, log, "started", "hKey");
+        }
+    }
+
+    private static void onceAlsoAfterCrashes(Checks checks) {
+        checks.says("start succeeds at most once per object, also after crashes");
         SealedAuditLog log = Logs.crashed(8, 2, 3, 3);
-        Map<String, Integer> before = State.of(log);
-        checks.due("start while crashed", log.start(4), false);
-        checks.unchanged("start while crashed", before, log);
+        checks.refused("start while crashed", log, () -> log.start(4));
         log.recover();
-        before = State.of(log);
-        checks.due("start after recover", log.start(4), false);
-        checks.unchanged("start after recover", before, log);
-        checks.due("verify", log.verify(), SealedAuditLog.V_ACCEPT);
+        checks.refused("start after recover", log, () -> log.start(4));
+        log.armCrash(0);
+        log.append(1, 1);
+        checks.refused("start after a crash of append", log, () -> log.start(4));
+        log.recover();
+        checks.refused("start after the second recover", log, () -> log.start(4));
+        checks.due("vKey is the first key: verify()", log.verify(), SealedAuditLog.V_ACCEPT);
+        SealedAuditLog empty = Logs.crashed(8, 2, 3, 0);
+        checks.refused("start of an empty crashed log", empty, () -> empty.start(4));
     }
 }

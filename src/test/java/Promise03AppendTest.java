@@ -4,120 +4,159 @@ import java.util.Map;
 public final class Promise03AppendTest {
     /** Steps of an append that fills an epoch. */
     private static final int STEPS = 17;
+    /** The places within a record in the order in which they are written. */
+    private static final int[] ORDER = {1, 2, 3, 4, 5, 6, 7, 0};
+    private static final int[] WRONG_KINDS = {0, 255, 256, 257, 510, -1, -254, Integer.MIN_VALUE, Integer.MAX_VALUE};
+    private static final int[] WRONG_PAYLOADS = {-1, 65536, 65537, -65535, Integer.MIN_VALUE, Integer.MAX_VALUE};
 
     public static void main(String[] args) {
         Checks checks = new Checks();
-        knownTags(checks);
-        valuesAtTheEdges(checks);
-        refusalsInOrder(checks);
-        fullLog(checks);
+        notStarted(checks);
+        crashed(checks);
+        wrongKinds(checks);
+        rightKinds(checks);
+        wrongPayloads(checks);
+        rightPayloads(checks);
+        testsInOrder(checks);
+        fullByOneRecord(checks);
+        fullByTheCheckpoint(checks);
+        roomForBoth(checks);
+        fullEpoch(checks);
         fullForAllSizes(checks);
-        lostWithinTheRecord(checks);
-        for (int steps = 0; steps <= STEPS; steps++) {
-            crashBeforeStep(checks, steps);
-        }
+        roomAgainAfterADrop(checks);
+        indexes(checks);
+        closesTheEpoch(checks);
+        doesNotCloseTheEpoch(checks);
         budgetCountsAcrossCalls(checks);
-        leavesTheReason(checks);
-        epochNumberWraps(checks);
+        budgetJustEnough(checks);
+        lostInSteps1To8(checks);
+        crashInSteps9To17(checks);
+        withoutACrash(checks);
+        behindTheHeader(checks);
+        leavesTheRest(checks);
         checks.end();
     }
 
-    /** The tags here were worked out outside Java. */
-    private static void knownTags(Checks checks) {
-        SealedAuditLog log = Logs.started(8, 2, 12345);
-        checks.due("append(1, 100)", log.append(1, 100), 0);
-        checks.writer("append(1, 100)", log, 8, 48452715, 1, 0);
-        checks.header("append(1, 100)", log, 0, 12345, 0, 0);
-        checks.bytes("append(1, 100)", log, 0, 1, 0, 0, 100, 0x02, 0xE3, 0x54, 0x6B, 0);
-        checks.due("append(2, 200)", log.append(2, 200), 1);
-        checks.writer("append(2, 200)", log, 24, -1088005932, 0, 1);
-        checks.header("append(2, 200)", log, 24, -1294923591, -1088005932, 1);
-        checks.due("tag of record 1", Logs.storedTag(log, 1), -1901695221);
-        checks.bytes("checkpoint", log, 16, 255, 2, 0, 0);
-        checks.due("tag of the checkpoint", Logs.storedTag(log, 2), -1088005932);
-        checks.due("append(3, 300)", log.append(3, 300), 3);
-        checks.bytes("append(3, 300)", log, 24, 3, 3, 1, 44);
-        checks.writer("append(3, 300)", log, 32, -1177296449, 1, 1);
-        checks.header("append(3, 300)", log, 24, -1294923591, -1088005932, 1);
+    private static void refused(Checks checks, String state, SealedAuditLog log, int kind, int payload, int due) {
+        checks.refused("append(" + kind + ", " + payload + "), " + state, log, () -> log.append(kind, payload), due);
     }
 
-    private static void valuesAtTheEdges(Checks checks) {
-        int[][] tags = {
-            {0, -903696049, 303086414, -1871654493, -1082462464, 220122040, -944764598, 883951349, 2005345061},
-            {1, 1816653787, -750156546, 1944222576, -1705083410, -119470167, 2135562756, -88175620, 1550570086},
-            {-1, -155543448, -403202307, -1071479250, -946151800, 1744802193, 2115740406, 1320730028, 856642376},
-            {Integer.MIN_VALUE, 925429642, 1462087088, 195156917, -632600908, 1762387572, 1498174500, -936743582,
-                1525014863},
-            {Integer.MAX_VALUE, -1581368417, 1618262126, -2072175237, -1395260204, 596150818, 874775046, 878587368,
-                -1451657694}};
-        for (int[] row : tags) {
-            SealedAuditLog log = Logs.started(8, 2, row[0]);
-            checks.due("append(254, 65535)", log.append(254, 65535), 0);
-            checks.writer("append(254, 65535)", log, 8, row[1], 1, 0);
-            checks.bytes("append(254, 65535)", log, 0, 254, 0, 255, 255);
-            checks.due("append(1, 0)", log.append(1, 0), 1);
-            checks.due("tag of append(1, 0)", Logs.storedTag(log, 1), row[2]);
-            checks.header("append(1, 0)", log, 24, row[4], row[3], 1);
-            checks.due("append(128, 4660)", log.append(0x80, 0x1234), 3);
-            checks.writer("append(128, 4660)", log, 32, row[5], 1, 1);
-            checks.bytes("append(128, 4660)", log, 24, 0x80, 3, 0x12, 0x34);
-            checks.due("append(7, 256)", log.append(7, 256), 4);
-            checks.due("tag of append(7, 256)", Logs.storedTag(log, 4), row[6]);
-            checks.bytes("second checkpoint", log, 40, 255, 5, 0, 1);
-            checks.header("append(7, 256)", log, 48, row[8], row[7], 2);
+    private static void notStarted(Checks checks) {
+        checks.says("1. not started: ERR_NOT_STARTED");
+        SealedAuditLog log = new SealedAuditLog(4, 2);
+        refused(checks, "not started", log, 5, 5, SealedAuditLog.ERR_NOT_STARTED);
+        log.crash();
+        log.recover();
+        refused(checks, "not started, after calls that were refused", log, 5, 5, SealedAuditLog.ERR_NOT_STARTED);
+    }
+
+    private static void crashed(Checks checks) {
+        checks.says("2. crashed: ERR_CRASHED");
+        refused(checks, "crashed", Logs.crashed(4, 2, 1, 1), 5, 5, SealedAuditLog.ERR_CRASHED);
+        refused(checks, "crashed while empty", Logs.crashed(4, 2, 1, 0), 5, 5, SealedAuditLog.ERR_CRASHED);
+        for (int steps = 0; steps < STEPS; steps++) {
+            SealedAuditLog log = Logs.torn(8, 2, 1, 1, steps);
+            refused(checks, "crashed after " + steps + " steps", log, 5, 5, SealedAuditLog.ERR_CRASHED);
         }
     }
 
-    private static void refused(Checks checks, SealedAuditLog log, int kind, int payload, int due) {
-        String call = "append(" + kind + ", " + payload + ")";
-        Map<String, Integer> before = State.of(log);
-        checks.due(call, log.append(kind, payload), due);
-        checks.unchanged(call, before, log);
+    private static void wrongKinds(Checks checks) {
+        checks.says("3. kind not in 1..254 (so 0, 255, negatives and values above 255): ERR_KIND");
+        for (int kind : WRONG_KINDS) {
+            refused(checks, "empty", Logs.started(4, 2, 1), kind, 5, SealedAuditLog.ERR_KIND);
+            refused(checks, "mid-epoch", Logs.filled(4, 2, 1, 1), kind, 5, SealedAuditLog.ERR_KIND);
+            refused(checks, "after a checkpoint", Logs.filled(4, 2, 1, 2), kind, 5, SealedAuditLog.ERR_KIND);
+        }
     }
 
-    private static void refusalsInOrder(Checks checks) {
-        int[] wrongKinds = {0, 255, 256, 257, -1, Integer.MIN_VALUE, Integer.MAX_VALUE};
-        int[] wrongPayloads = {-1, 65536, Integer.MIN_VALUE, Integer.MAX_VALUE};
-        SealedAuditLog unstarted = new SealedAuditLog(4, 2);
-        SealedAuditLog crashed = Logs.crashed(4, 2, 1, 1);
-        SealedAuditLog open = Logs.filled(4, 2, 1, 1);
-        SealedAuditLog full = Logs.filled(4, 2, 1, 3);
-        for (SealedAuditLog log : new SealedAuditLog[] {unstarted, crashed, open, full}) {
-            log.armCrash(0);
-            int first = log == unstarted ? SealedAuditLog.ERR_NOT_STARTED : log == crashed ? SealedAuditLog.ERR_CRASHED : 0;
-            for (int kind : wrongKinds) {
-                refused(checks, log, kind, 5, first != 0 ? first : SealedAuditLog.ERR_KIND);
-                refused(checks, log, kind, -1, first != 0 ? first : SealedAuditLog.ERR_KIND);
-            }
-            for (int payload : wrongPayloads) {
-                refused(checks, log, 5, payload, first != 0 ? first : SealedAuditLog.ERR_PAYLOAD);
+    private static void rightKinds(Checks checks) {
+        checks.says("3. kind not in 1..254: ERR_KIND (1..254 pass)");
+        for (int kind = 1; kind <= 254; kind++) {
+            SealedAuditLog log = Logs.started(4, 2, 1);
+            checks.due("append(" + kind + ", 5)", log.append(kind, 5), 0);
+            checks.bytes("kind", log, 0, kind);
+        }
+    }
+
+    private static void wrongPayloads(Checks checks) {
+        checks.says("4. payload not in 0..65535: ERR_PAYLOAD");
+        for (int payload : WRONG_PAYLOADS) {
+            refused(checks, "empty", Logs.started(4, 2, 1), 1, payload, SealedAuditLog.ERR_PAYLOAD);
+            refused(checks, "mid-epoch", Logs.filled(4, 2, 1, 1), 254, payload, SealedAuditLog.ERR_PAYLOAD);
+            refused(checks, "after a checkpoint", Logs.filled(4, 2, 1, 2), 5, payload, SealedAuditLog.ERR_PAYLOAD);
+        }
+    }
+
+    private static void rightPayloads(Checks checks) {
+        checks.says("4. payload not in 0..65535: ERR_PAYLOAD (0 and 65535 pass)");
+        for (int payload : new int[] {0, 1, 65534, 65535}) {
+            SealedAuditLog log = Logs.started(4, 2, 1);
+            checks.due("append(5, " + payload + ")", log.append(5, payload), 0);
+            checks.bytes("payload", log, 2, payload >> 8, payload & 255);
+        }
+    }
+
+    private static void testsInOrder(Checks checks) {
+        checks.says("It tests in this order");
+        for (int kind : WRONG_KINDS) {
+            for (int payload : WRONG_PAYLOADS) {
+                refused(checks, "new", new SealedAuditLog(4, 2), kind, payload, SealedAuditLog.ERR_NOT_STARTED);
+                refused(checks, "crashed", Logs.crashed(4, 2, 1, 1), kind, payload, SealedAuditLog.ERR_CRASHED);
+                refused(checks, "open", Logs.filled(4, 2, 1, 1), kind, payload, SealedAuditLog.ERR_KIND);
+                refused(checks, "full", Logs.filled(4, 2, 1, 3), kind, payload, SealedAuditLog.ERR_KIND);
+                refused(checks, "full", Logs.filled(4, 2, 1, 3), 5, payload, SealedAuditLog.ERR_PAYLOAD);
             }
         }
-        refused(checks, unstarted, 5, 5, SealedAuditLog.ERR_NOT_STARTED);
-        refused(checks, crashed, 5, 5, SealedAuditLog.ERR_CRASHED);
-        refused(checks, full, 5, 5, SealedAuditLog.ERR_FULL);
-        checks.due("open log with budget 0", open.append(5, 5), SealedAuditLog.ERR_LOST);
+        refused(checks, "full and crashed", Logs.crashed(4, 2, 1, 3), 5, 5, SealedAuditLog.ERR_CRASHED);
     }
 
-    private static void fullLog(Checks checks) {
-        // Room for one record, but the epoch's last record needs its checkpoint too.
-        SealedAuditLog log = Logs.filled(5, 2, 7, 3);
-        checks.writer("four records of five", log, 32, Logs.storedTag(log, 3), 1, 1);
-        refused(checks, log, 1, 1, SealedAuditLog.ERR_FULL);
-        // Room for exactly both.
-        log = Logs.filled(6, 2, 7, 3);
-        checks.due("last two records", log.append(1, 1), 4);
-        checks.header("last two records", log, 48, Model.ratchet(Model.ratchet(7)), Logs.storedTag(log, 5), 2);
-        refused(checks, log, 1, 1, SealedAuditLog.ERR_FULL);
-        // Room for exactly one that does not fill the epoch.
-        log = Logs.filled(4, 3, 7, 3);
-        refused(checks, log, 1, 1, SealedAuditLog.ERR_FULL);
+    private static void fullByOneRecord(Checks checks) {
+        checks.says("5. with need = 8: if wEnd + need > C: ERR_FULL");
+        SealedAuditLog log = Logs.filled(4, 8, 7, 3);
+        checks.due("the last record fits", log.append(1, 1), 3);
+        refused(checks, "four of four records", log, 1, 1, SealedAuditLog.ERR_FULL);
         log = Logs.filled(5, 3, 7, 3);
-        checks.due("last record", log.append(1, 1), 4);
-        refused(checks, log, 1, 1, SealedAuditLog.ERR_FULL);
+        checks.due("the last record after a checkpoint fits", log.append(1, 1), 4);
+        refused(checks, "five of five records", log, 1, 1, SealedAuditLog.ERR_FULL);
+        refused(checks, "a checkpoint at the end", Logs.filled(4, 3, 7, 3), 1, 1, SealedAuditLog.ERR_FULL);
+        log = Logs.filled(32, 8, 7, 28);
+        checks.due("record 31", log.append(1, 1), 31);
+        refused(checks, "32 of 32 records", log, 1, 1, SealedAuditLog.ERR_FULL);
+    }
+
+    private static void fullByTheCheckpoint(Checks checks) {
+        checks.says("5. with need = 16 if wSlot + 1 >= E: if wEnd + need > C: ERR_FULL");
+        refused(checks, "room for one", Logs.filled(5, 2, 7, 3), 1, 1, SealedAuditLog.ERR_FULL);
+        refused(checks, "room for one of the first epoch", Logs.filled(4, 4, 7, 3), 1, 1, SealedAuditLog.ERR_FULL);
+        refused(checks, "room for one of the longest epoch", Logs.filled(8, 8, 7, 7), 1, 1, SealedAuditLog.ERR_FULL);
+        refused(checks, "room for none", Logs.filled(4, 2, 7, 3), 1, 1, SealedAuditLog.ERR_FULL);
+    }
+
+    private static void roomForBoth(Checks checks) {
+        checks.says("5. with need = 16 if wSlot + 1 >= E (wEnd + 16 == C passes)");
+        SealedAuditLog log = Logs.filled(6, 2, 7, 3);
+        checks.due("the last two records", log.append(1, 1), 4);
+        checks.header("the last two records", log, 48, Model.ratchet(Model.ratchet(7)), Logs.storedTag(log, 5), 2);
+        refused(checks, "six of six records", log, 1, 1, SealedAuditLog.ERR_FULL);
+        log = Logs.filled(9, 8, 7, 7);
+        checks.due("the last two records", log.append(1, 1), 7);
+        checks.due("wEnd", log.writer(SealedAuditLog.W_END), 72);
+        refused(checks, "nine of nine records", log, 1, 1, SealedAuditLog.ERR_FULL);
+    }
+
+    private static void fullEpoch(Checks checks) {
+        checks.says("5. if wSlot == E: ERR_FULL");
+        SealedAuditLog log = Logs.epochWithoutCheckpoint(4, 7);
+        refused(checks, "wSlot is E, no room", log, 1, 1, SealedAuditLog.ERR_FULL);
+        for (int left = 3; left >= 0; left--) {
+            log.dropRecord(0);
+            checks.due("wEnd", log.writer(SealedAuditLog.W_END), 8 * left);
+            refused(checks, "wSlot is E, with room", log, 1, 1, SealedAuditLog.ERR_FULL);
+        }
     }
 
     private static void fullForAllSizes(Checks checks) {
+        checks.says("if wSlot == E or wEnd + need > C: ERR_FULL (every R and E)");
         for (int records = 4; records <= 32; records++) {
             for (int length = 2; length <= 8; length++) {
                 SealedAuditLog log = Logs.started(records, length, records * 31 + length);
@@ -126,62 +165,67 @@ public final class Promise03AppendTest {
                     checks.due("append at " + i, log.append(9, i), i);
                     i += i % (length + 1) == length - 1 ? 2 : 1;
                 }
-                refused(checks, log, 9, 9, SealedAuditLog.ERR_FULL);
+                refused(checks, "R = " + records + ", E = " + length, log, 9, 9, SealedAuditLog.ERR_FULL);
                 checks.due("wEnd", log.writer(SealedAuditLog.W_END), 8 * i);
                 checks.due("verify", log.verify(), SealedAuditLog.V_ACCEPT);
             }
         }
     }
 
-    /** A record in the midst of an epoch takes 8 steps and no more. */
-    private static void lostWithinTheRecord(Checks checks) {
-        int[] record = Logs.record(5, 0, 0xAB, 0, 0x1234);
-        int[] order = {1, 2, 3, 4, 5, 6, 7, 0};
-        for (int steps = 0; steps <= 8; steps++) {
-            SealedAuditLog log = Logs.started(4, 3, 5);
-            log.armCrash(steps);
-            checks.due(steps + " steps", log.append(0xAB, 0x1234), steps < 8 ? SealedAuditLog.ERR_LOST : 0);
-            checks.mode(steps + " steps", log, steps < 8 ? -1 : 0, steps < 8);
-            checks.header(steps + " steps", log, 0, 5, 0, 0);
-            for (int n = 0; n < 8; n++) {
-                checks.due(steps + " steps: byte " + order[n], log.storedByte(order[n]), n < steps ? record[order[n]] : 0);
+    private static void roomAgainAfterADrop(Checks checks) {
+        checks.says("if wEnd + need > C: ERR_FULL (wEnd as a drop has left it)");
+        SealedAuditLog log = Logs.filled(4, 8, 7, 4);
+        log.dropRecord(0);
+        checks.due("append in the room of a dropped record", log.append(1, 1), 3);
+        refused(checks, "full again", log, 1, 1, SealedAuditLog.ERR_FULL);
+        // The writer's slot stays 1 of 2, so the next record still needs room for two.
+        SealedAuditLog two = Logs.filled(4, 2, 7, 3);
+        two.dropRecord(0);
+        refused(checks, "one of two records of room", two, 1, 1, SealedAuditLog.ERR_FULL);
+        two.dropRecord(0);
+        checks.due("append with room for two", two.append(1, 1), 2);
+        checks.due("wEnd", two.writer(SealedAuditLog.W_END), 32);
+    }
+
+    private static void indexes(Checks checks) {
+        checks.says("with i = wEnd / 8: it seals (kind, payload) at offset wEnd; answer i");
+        SealedAuditLog log = Logs.started(8, 3, 12);
+        int[] due = {0, 1, 2, 4, 5, 6, -5};
+        for (int n = 0; n < due.length; n++) {
+            checks.due("append " + n, log.append(n + 1, 10 * n), due[n]);
+            if (due[n] >= 0) {
+                checks.bytes("append " + n, log, 8 * due[n], n + 1, due[n], 0, 10 * n);
             }
-            checks.due("next append", log.append(1, 1), steps < 8 ? SealedAuditLog.ERR_CRASHED : SealedAuditLog.ERR_LOST);
         }
     }
 
-    private static void crashBeforeStep(Checks checks, int steps) {
-        String call = "append with budget " + steps;
-        SealedAuditLog log = Logs.filled(8, 2, 77, 1);
-        int firstTag = Logs.storedTag(log, 0);
-        int[] data = Logs.record(77, firstTag, 0xCD, 1, 0x5678);
-        int[] checkpoint = Logs.record(77, Logs.tagOf(data), 255, 2, 0);
-        log.verify();
-        Map<String, Integer> before = State.of(log);
-        log.armCrash(steps);
-        checks.due(call, log.append(0xCD, 0x5678), steps < 8 ? SealedAuditLog.ERR_LOST : 1);
-        checks.mode(call, log, steps < STEPS ? -1 : 0, steps < STEPS);
-        int[] order = {1, 2, 3, 4, 5, 6, 7, 0};
-        for (int n = 0; n < 8; n++) {
-            checks.due(call + ": data byte " + order[n], log.storedByte(8 + order[n]), n < steps ? data[order[n]] : 0);
-            checks.due(call + ": checkpoint byte " + order[n], log.storedByte(16 + order[n]),
-                n + 8 < steps ? checkpoint[order[n]] : 0);
+    private static void closesTheEpoch(Checks checks) {
+        checks.says("if now wSlot == E, it does checkpoint completion");
+        for (int length = 2; length <= 8; length++) {
+            SealedAuditLog log = Logs.filled(32, length, 12, length - 1);
+            checks.due("hEpoch before", log.header(SealedAuditLog.H_EPOCH), 0);
+            checks.due("append", log.append(9, 9), length - 1);
+            checks.bytes("checkpoint", log, 8 * length, 255, length, 0, 0);
+            checks.due("hEpoch after", log.header(SealedAuditLog.H_EPOCH), 1);
         }
-        if (steps < STEPS) {
-            checks.writer(call, log, 0, 0, 0, 0);
-            checks.header(call, log, 0, 77, 0, 0);
-        } else {
-            checks.writer(call, log, 24, Logs.tagOf(checkpoint), 0, 1);
-            checks.header(call, log, 24, Model.ratchet(77), Logs.tagOf(checkpoint), 1);
-        }
-        for (int pos = 0; pos < 64; pos++) {
-            if (pos < 8 || pos >= 24) {
-                checks.due(call + ": byte " + pos, log.storedByte(pos), before.get("byte " + pos));
+    }
+
+    private static void doesNotCloseTheEpoch(Checks checks) {
+        checks.says("if now wSlot == E (and not before)");
+        for (int length = 2; length <= 8; length++) {
+            SealedAuditLog log = Logs.started(32, length, 12);
+            for (int n = 1; n < length; n++) {
+                log.armCrash(8);
+                checks.due("append in mid-epoch takes 8 steps", log.append(9, 9), n - 1);
+                checks.mode("append in mid-epoch", log, 0, false);
+                checks.header("append in mid-epoch", log, 0, 12, 0, 0);
+                checks.zeros("append in mid-epoch", log, 8 * n, 8 * n + 8);
             }
         }
     }
 
     private static void budgetCountsAcrossCalls(Checks checks) {
+        checks.says("a budget set earlier keeps counting down across calls");
         SealedAuditLog log = Logs.started(16, 2, 77);
         log.armCrash(8 + 17 + 8 + 3);
         checks.due("first", log.append(1, 1), 0);
@@ -196,37 +240,109 @@ public final class Promise03AppendTest {
         checks.mode("fourth", log, -1, true);
     }
 
-    private static void leavesTheReason(Checks checks) {
+    private static void budgetJustEnough(Checks checks) {
+        checks.says("Every step is subject to the budget rule of Write steps (all 17 done, none left)");
+        SealedAuditLog log = Logs.torn(8, 2, 77, 1, STEPS);
+        checks.mode("17 steps of 17", log, 0, false);
+        checks.writer("17 steps of 17", log, 24, Logs.storedTag(log, 2), 0, 1);
+        checks.due("the next one", log.append(1, 1), SealedAuditLog.ERR_LOST);
+        checks.mode("the next one", log, -1, true);
+        checks.zeros("the next one", log, 24, 64);
+    }
+
+    private static void lostInSteps1To8(Checks checks) {
+        checks.says("ERR_LOST if a crash happened during steps 1..8; bytes already written by earlier steps of "
+            + "the call stay in the log. The writer state is zeroed, crashed = true, budget = -1, the header "
+            + "is unchanged.");
+        for (int steps = 0; steps < 8; steps++) {
+            crashAfter(checks, steps, SealedAuditLog.ERR_LOST);
+        }
+    }
+
+    private static void crashInSteps9To17(Checks checks) {
+        checks.says("Otherwise i, even when a crash happened during steps 9..17; the header is replaced only "
+            + "if step 17 itself was done (a crash before step 17 leaves it unchanged)");
+        for (int steps = 8; steps < STEPS; steps++) {
+            crashAfter(checks, steps, 4);
+        }
+    }
+
+    /** In a second epoch, so that the header that must stay is not the initial one. */
+    private static void crashAfter(Checks checks, int steps, int due) {
+        String call = "append with budget " + steps;
+        SealedAuditLog log = Logs.filled(8, 2, 77, 3);
+        int key = Model.ratchet(77);
+        int[] data = Logs.record(key, Logs.storedTag(log, 3), 0xCD, 4, 0x5678);
+        int[] checkpoint = Logs.record(key, Logs.tagOf(data), 255, 5, 1);
+        log.armCrash(steps);
+        Map<String, Integer> before = State.of(log);
+        checks.due(call, log.append(0xCD, 0x5678), due);
+        checks.mode(call, log, -1, true);
+        checks.writer(call, log, 0, 0, 0, 0);
+        checks.header(call, log, 24, key, before.get("hTag"), 1);
+        for (int n = 0; n < 8; n++) {
+            checks.due(call + ": data byte " + ORDER[n], log.storedByte(32 + ORDER[n]), n < steps ? data[ORDER[n]] : 0);
+            checks.due(call + ": checkpoint byte " + ORDER[n], log.storedByte(40 + ORDER[n]),
+                n + 8 < steps ? checkpoint[ORDER[n]] : 0);
+        }
+        for (int pos = 0; pos < 64; pos++) {
+            if (pos < 32 || pos >= 48) {
+                checks.due(call + ": byte " + pos, log.storedByte(pos), before.get("byte " + pos));
+            }
+        }
+    }
+
+    private static void withoutACrash(Checks checks) {
+        checks.says("Without a crash: after the data record wEnd = 8*i + 8 and wTag is its tag; when a "
+            + "checkpoint follows, wEnd = 8*i + 16, wTag is the checkpoint's tag, the header holds hEnd = "
+            + "wEnd, hTag = wTag, hKey = ratchet of the old hKey, hEpoch = old wEpoch + 1, and wEpoch has "
+            + "grown by 1, wSlot = 0");
+        SealedAuditLog log = Logs.started(8, 2, 12345);
+        checks.due("append(1, 100)", log.append(1, 100), 0);
+        checks.writer("append(1, 100)", log, 8, 48452715, 1, 0);
+        checks.header("append(1, 100)", log, 0, 12345, 0, 0);
+        checks.due("append(2, 200)", log.append(2, 200), 1);
+        checks.writer("append(2, 200)", log, 24, -1088005932, 0, 1);
+        checks.header("append(2, 200)", log, 24, -1294923591, -1088005932, 1);
+        checks.due("append(3, 300)", log.append(3, 300), 3);
+        checks.writer("append(3, 300)", log, 32, -1177296449, 1, 1);
+        checks.header("append(3, 300)", log, 24, -1294923591, -1088005932, 1);
+    }
+
+    private static void behindTheHeader(Checks checks) {
+        checks.says("the header holds hEnd = wEnd (also where drops have brought wEnd below the old hEnd)");
+        SealedAuditLog log = Logs.filled(12, 2, 31, 4);
+        checks.due("hEnd", log.header(SealedAuditLog.H_END), 48);
+        for (int n = 0; n < 6; n++) {
+            log.dropRecord(0);
+        }
+        checks.due("append", log.append(1, 1), 0);
+        checks.due("append", log.append(2, 2), 1);
+        int key = Model.ratchet(Model.ratchet(Model.ratchet(31)));
+        checks.header("third epoch", log, 24, key, Logs.storedTag(log, 2), 3);
+        checks.bytes("third checkpoint", log, 16, 255, 2, 0, 2);
+    }
+
+    private static void leavesTheRest(Checks checks) {
+        checks.says("Not changed by append: started, vKey, reason, R, E, and every log byte outside the "
+            + "written record(s)");
         SealedAuditLog log = Logs.filled(16, 2, 77, 1);
         log.tamper(7, log.storedByte(7) ^ 1);
         log.verify();
+        for (int pos = 16; pos < 128; pos++) {
+            Logs.plant(log, pos, 0xEE);
+        }
+        Map<String, Integer> before = State.of(log);
         checks.due("append", log.append(2, 2), 1);
-        checks.due("reason after append", log.verifyReason(), SealedAuditLog.R_TAG);
+        String[] changed = {"wEnd", "wTag", "wSlot", "wEpoch", "hEnd", "hKey", "hTag", "hEpoch"};
+        checks.onlyChanged("append", before, log, Logs.bytesAnd(8, 24, changed));
+        before = State.of(log);
+        checks.due("append", log.append(3, 3), 3);
+        checks.onlyChanged("append", before, log, Logs.bytesAnd(24, 32, "wEnd", "wTag", "wSlot"));
+        checks.due("vKey: verify() finds the changed tag again", log.verify(), 0);
         log.armCrash(0);
         checks.due("append", log.append(2, 2), SealedAuditLog.ERR_LOST);
         checks.due("reason after a crash", log.verifyReason(), SealedAuditLog.R_TAG);
-    }
-
-    private static void epochNumberWraps(Checks checks) {
-        SealedAuditLog log = Logs.started(8, 2, 4);
-        for (int epoch = 0; epoch < 65536; epoch++) {
-            log.append(1, 1);
-            log.append(2, 2);
-            log.dropRecord(0);
-            log.dropRecord(0);
-            log.dropRecord(0);
-        }
-        checks.due("wEpoch", log.writer(SealedAuditLog.W_EPOCH), 65536);
-        log.append(1, 1);
-        log.append(2, 2);
-        checks.bytes("checkpoint 65536", log, 16, 255, 2, 0, 0);
-        checks.due("hEpoch", log.header(SealedAuditLog.H_EPOCH), 65537);
-        log.append(3, 3);
-        log.armCrash(16);
-        log.append(4, 4);
-        checks.bytes("checkpoint 65537", log, 40, 255, 5, 0, 1);
-        checks.due("recover accepts it", log.recover(), 6);
-        checks.due("hEpoch", log.header(SealedAuditLog.H_EPOCH), 65538);
-        checks.due("wEpoch", log.writer(SealedAuditLog.W_EPOCH), 65538);
+        checks.due("started after a crash", log.writer(SealedAuditLog.W_STARTED), 1);
     }
 }
