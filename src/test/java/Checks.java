@@ -13,7 +13,12 @@ final class Checks {
     private int wrong = 0;
     private int wrongBefore = 0;
 
-    /** The document's words that the checks from here on stand for; each must have a check. */
+    /** As says(words), of which only the given case is meant here. */
+    void says(String words, String here) {
+        says(words + " [here: " + here + "]");
+    }
+
+    /** The document's words (" .. " is a gap) that the checks from here on stand for; each must have a check. */
     void says(String words) {
         closeSentence();
         sentence = words;

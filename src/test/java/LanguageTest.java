@@ -39,6 +39,7 @@ public final class LanguageTest {
     }
 
     private static void classItself(Checks checks) {
+        checks.says("One class: the one of the document, public and final, with the public constructor");
         Class<?> face = SealedAuditLog.class;
         checks.due("the class is public and final", face.getModifiers(), Modifier.PUBLIC | Modifier.FINAL);
         checks.due("nested classes", face.getDeclaredClasses().length, 0);
@@ -59,6 +60,7 @@ public final class LanguageTest {
     }
 
     private static void methods(Checks checks) {
+        checks.says("The public face (the methods)");
         Set<String> publicOnes = new TreeSet<>();
         Set<String> publicNames = new TreeSet<>();
         for (Method method : SealedAuditLog.class.getDeclaredMethods()) {
@@ -79,6 +81,7 @@ public final class LanguageTest {
     }
 
     private static void fields(Checks checks) throws IllegalAccessException {
+        checks.says("The public face (the constants); private fields");
         Set<String> constants = new TreeSet<>();
         int others = 0;
         for (Field field : SealedAuditLog.class.getDeclaredFields()) {
@@ -104,6 +107,7 @@ public final class LanguageTest {
     }
 
     private static void source(Checks checks) throws IOException {
+        checks.says("No class of the Java library; arrays of a length that is a literal or a constant");
         String text = Files.readString(SOURCE).replaceAll("//[^\n]*", "").replaceAll("(?s)/\\*.*?\\*/", "");
         Matcher words = Pattern.compile("\\b(" + BANNED_WORDS + ")\\b|->|::|\"|'").matcher(text);
         while (words.find()) {

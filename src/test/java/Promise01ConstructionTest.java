@@ -67,7 +67,7 @@ public final class Promise01ConstructionTest {
     }
 
     private static void epochsBelow(Checks checks) {
-        checks.says("E is epochLength clamped to 2..8 the same way (below 2)");
+        checks.says("E is epochLength clamped to 2..8 the same way", "below 2");
         for (int length : new int[] {1, 0, -1, -2, LEAST, LEAST + 2}) {
             sizes(checks, 10, length, 10, 2);
             checks.due("first epoch of " + length, firstEpoch(length), 2);
@@ -75,7 +75,7 @@ public final class Promise01ConstructionTest {
     }
 
     private static void epochsAbove(Checks checks) {
-        checks.says("E is epochLength clamped to 2..8 the same way (above 8)");
+        checks.says("E is epochLength clamped to 2..8 the same way", "above 8");
         for (int length : new int[] {9, 10, 16, 255, 256, MOST}) {
             sizes(checks, 10, length, 10, 8);
             checks.due("first epoch of " + length, firstEpoch(length), 8);
@@ -83,7 +83,7 @@ public final class Promise01ConstructionTest {
     }
 
     private static void otherEpochsStay(Checks checks) {
-        checks.says("E is epochLength clamped to 2..8 the same way (others stay)");
+        checks.says("E is epochLength clamped to 2..8 the same way", "others stay");
         for (int length = 2; length <= 8; length++) {
             sizes(checks, 10, length, 10, length);
             checks.due("first epoch of " + length, firstEpoch(length), length);
@@ -135,7 +135,7 @@ public final class Promise01ConstructionTest {
     }
 
     private static void objectsStandApart(Checks checks) {
-        checks.says("At the start, of a second object beside one in use");
+        checks.says("At the start: all C log bytes are 0", "a second object beside one in use");
         SealedAuditLog other = new SealedAuditLog(6, 2);
         Logs.torn(6, 2, 99, 3, 5);
         initial(checks, other, 48);

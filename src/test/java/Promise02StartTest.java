@@ -16,8 +16,8 @@ public final class Promise02StartTest {
     }
 
     private static void anyKey(Checks checks) {
-        checks.says("started = true, vKey = key, hKey = key, hEnd = hTag = hEpoch = 0, and it answers true. "
-            + "Any int key is allowed.");
+        checks.says("started = true, vKey = key, hKey = key, hEnd = hTag = hEpoch = 0, and it answers true. Any "
+            + "int key is allowed.");
         for (int key : KEYS) {
             SealedAuditLog log = new SealedAuditLog(8, 2);
             checks.due("start(" + key + ")", log.start(key), true);
@@ -43,7 +43,7 @@ public final class Promise02StartTest {
     }
 
     private static void keyZeroStartsToo(Checks checks) {
-        checks.says("if started is true, it answers false (the key 0 starts a log like any other)");
+        checks.says("if started is true, it answers false and nothing changes", "started with the key 0");
         SealedAuditLog log = Logs.started(8, 2, 0);
         checks.refused("start(5) after start(0)", log, () -> log.start(5));
         checks.refused("start(0) after start(0)", log, () -> log.start(0));

@@ -18,6 +18,7 @@ public final class Promise03AppendTest {
         wrongPayloads(checks);
         rightPayloads(checks);
         testsInOrder(checks);
+        refusalsLeaveNoTrace(checks);
         fullByOneRecord(checks);
         fullByTheCheckpoint(checks);
         roomForBoth(checks);
@@ -70,7 +71,7 @@ public final class Promise03AppendTest {
     }
 
     private static void rightKinds(Checks checks) {
-        checks.says("3. kind not in 1..254: ERR_KIND (1..254 pass)");
+        checks.says("3. kind not in 1..254", "1 to 254 pass");
         for (int kind = 1; kind <= 254; kind++) {
             SealedAuditLog log = Logs.started(4, 2, 1);
             checks.due("append(" + kind + ", 5)", log.append(kind, 5), 0);
@@ -88,7 +89,7 @@ public final class Promise03AppendTest {
     }
 
     private static void rightPayloads(Checks checks) {
-        checks.says("4. payload not in 0..65535: ERR_PAYLOAD (0 and 65535 pass)");
+        checks.says("4. payload not in 0..65535", "0 and 65535 pass");
         for (int payload : new int[] {0, 1, 65534, 65535}) {
             SealedAuditLog log = Logs.started(4, 2, 1);
             checks.due("append(5, " + payload + ")", log.append(5, payload), 0);
@@ -110,8 +111,30 @@ public final class Promise03AppendTest {
         refused(checks, "full and crashed", Logs.crashed(4, 2, 1, 3), 5, 5, SealedAuditLog.ERR_CRASHED);
     }
 
+    private static void refusalsLeaveNoTrace(Checks checks) {
+        checks.says("each refusal changes nothing at all (budget included)");
+        SealedAuditLog plain = new SealedAuditLog(6, 2);
+        SealedAuditLog log = new SealedAuditLog(6, 2);
+        plain.armCrash(8 + 17 + 8 + 4);
+        log.armCrash(8 + 17 + 8 + 4);
+        log.append(1, 1);
+        plain.start(9);
+        log.start(9);
+        for (int n = 1; n <= 4; n++) {
+            log.append(255, n);
+            log.append(n, 65536);
+            plain.append(n, n);
+            log.append(n, n);
+            log.append(0, n);
+            checks.unchanged("appends refused before and after append " + n, State.of(plain), log);
+        }
+        checks.mode("the last append crashes", log, -1, true);
+        log.append(5, 5);
+        checks.unchanged("append refused while crashed", State.of(plain), log);
+    }
+
     private static void fullByOneRecord(Checks checks) {
-        checks.says("5. with need = 8: if wEnd + need > C: ERR_FULL");
+        checks.says("else 8: if wSlot == E or wEnd + need > C: ERR_FULL", "need = 8");
         SealedAuditLog log = Logs.filled(4, 8, 7, 3);
         checks.due("the last record fits", log.append(1, 1), 3);
         refused(checks, "four of four records", log, 1, 1, SealedAuditLog.ERR_FULL);
@@ -125,7 +148,7 @@ public final class Promise03AppendTest {
     }
 
     private static void fullByTheCheckpoint(Checks checks) {
-        checks.says("5. with need = 16 if wSlot + 1 >= E: if wEnd + need > C: ERR_FULL");
+        checks.says("5. with need = 16 if wSlot + 1 >= E .. wEnd + need > C: ERR_FULL");
         refused(checks, "room for one", Logs.filled(5, 2, 7, 3), 1, 1, SealedAuditLog.ERR_FULL);
         refused(checks, "room for one of the first epoch", Logs.filled(4, 4, 7, 3), 1, 1, SealedAuditLog.ERR_FULL);
         refused(checks, "room for one of the longest epoch", Logs.filled(8, 8, 7, 7), 1, 1, SealedAuditLog.ERR_FULL);
@@ -133,7 +156,7 @@ public final class Promise03AppendTest {
     }
 
     private static void roomForBoth(Checks checks) {
-        checks.says("5. with need = 16 if wSlot + 1 >= E (wEnd + 16 == C passes)");
+        checks.says("5. with need = 16 if wSlot + 1 >= E", "wEnd + 16 = C passes");
         SealedAuditLog log = Logs.filled(6, 2, 7, 3);
         checks.due("the last two records", log.append(1, 1), 4);
         checks.header("the last two records", log, 48, Model.ratchet(Model.ratchet(7)), Logs.storedTag(log, 5), 2);
@@ -145,7 +168,7 @@ public final class Promise03AppendTest {
     }
 
     private static void fullEpoch(Checks checks) {
-        checks.says("5. if wSlot == E: ERR_FULL");
+        checks.says("if wSlot == E or .. ERR_FULL", "wSlot = E");
         SealedAuditLog log = Logs.epochWithoutCheckpoint(4, 7);
         refused(checks, "wSlot is E, no room", log, 1, 1, SealedAuditLog.ERR_FULL);
         for (int left = 3; left >= 0; left--) {
@@ -156,7 +179,7 @@ public final class Promise03AppendTest {
     }
 
     private static void fullForAllSizes(Checks checks) {
-        checks.says("if wSlot == E or wEnd + need > C: ERR_FULL (every R and E)");
+        checks.says("if wSlot == E or wEnd + need > C: ERR_FULL", "every R and E");
         for (int records = 4; records <= 32; records++) {
             for (int length = 2; length <= 8; length++) {
                 SealedAuditLog log = Logs.started(records, length, records * 31 + length);
@@ -173,7 +196,7 @@ public final class Promise03AppendTest {
     }
 
     private static void roomAgainAfterADrop(Checks checks) {
-        checks.says("if wEnd + need > C: ERR_FULL (wEnd as a drop has left it)");
+        checks.says("wEnd + need > C: ERR_FULL", "wEnd as a drop has left it");
         SealedAuditLog log = Logs.filled(4, 8, 7, 4);
         log.dropRecord(0);
         checks.due("append in the room of a dropped record", log.append(1, 1), 3);
@@ -188,7 +211,7 @@ public final class Promise03AppendTest {
     }
 
     private static void indexes(Checks checks) {
-        checks.says("with i = wEnd / 8: it seals (kind, payload) at offset wEnd; answer i");
+        checks.says("with i = wEnd / 8: it seals (kind, payload) at offset wEnd");
         SealedAuditLog log = Logs.started(8, 3, 12);
         int[] due = {0, 1, 2, 4, 5, 6, -5};
         for (int n = 0; n < due.length; n++) {
@@ -211,7 +234,7 @@ public final class Promise03AppendTest {
     }
 
     private static void doesNotCloseTheEpoch(Checks checks) {
-        checks.says("if now wSlot == E (and not before)");
+        checks.says("if now wSlot == E", "and not before");
         for (int length = 2; length <= 8; length++) {
             SealedAuditLog log = Logs.started(32, length, 12);
             for (int n = 1; n < length; n++) {
@@ -241,7 +264,7 @@ public final class Promise03AppendTest {
     }
 
     private static void budgetJustEnough(Checks checks) {
-        checks.says("Every step is subject to the budget rule of Write steps (all 17 done, none left)");
+        checks.says("Every step is subject to the budget rule of Write steps", "17 steps done, none left");
         SealedAuditLog log = Logs.torn(8, 2, 77, 1, STEPS);
         checks.mode("17 steps of 17", log, 0, false);
         checks.writer("17 steps of 17", log, 24, Logs.storedTag(log, 2), 0, 1);
@@ -251,17 +274,19 @@ public final class Promise03AppendTest {
     }
 
     private static void lostInSteps1To8(Checks checks) {
-        checks.says("ERR_LOST if a crash happened during steps 1..8; bytes already written by earlier steps of "
-            + "the call stay in the log. The writer state is zeroed, crashed = true, budget = -1, the header "
-            + "is unchanged.");
+        checks.says("a crash may happen before any of the 17 steps. .. ERR_LOST if a crash happened during steps "
+            + "1..8. The kind byte is the last of those steps, so the record is not written; bytes already "
+            + "written by earlier steps of the call stay in the log. The writer state is zeroed, crashed = "
+            + "true, budget = -1, the header is unchanged.");
         for (int steps = 0; steps < 8; steps++) {
             crashAfter(checks, steps, SealedAuditLog.ERR_LOST);
         }
     }
 
     private static void crashInSteps9To17(Checks checks) {
-        checks.says("Otherwise i, even when a crash happened during steps 9..17; the header is replaced only "
-            + "if step 17 itself was done (a crash before step 17 leaves it unchanged)");
+        checks.says("Otherwise i, even when a crash happened during steps 9..17. In that case the data record is "
+            + "complete, the crash zeroes the writer state and sets crashed = true and budget = -1, and the "
+            + "header is replaced only if step 17 itself was done (a crash before step 17 leaves it unchanged)");
         for (int steps = 8; steps < STEPS; steps++) {
             crashAfter(checks, steps, 4);
         }
@@ -294,9 +319,9 @@ public final class Promise03AppendTest {
 
     private static void withoutACrash(Checks checks) {
         checks.says("Without a crash: after the data record wEnd = 8*i + 8 and wTag is its tag; when a "
-            + "checkpoint follows, wEnd = 8*i + 16, wTag is the checkpoint's tag, the header holds hEnd = "
-            + "wEnd, hTag = wTag, hKey = ratchet of the old hKey, hEpoch = old wEpoch + 1, and wEpoch has "
-            + "grown by 1, wSlot = 0");
+            + "checkpoint follows, wEnd = 8*i + 16, wTag is the checkpoint's tag, the header holds hEnd = wEnd, "
+            + "hTag = wTag, hKey = ratchet of the old hKey, hEpoch = old wEpoch + 1, and wEpoch has grown by 1, "
+            + "wSlot = 0");
         SealedAuditLog log = Logs.started(8, 2, 12345);
         checks.due("append(1, 100)", log.append(1, 100), 0);
         checks.writer("append(1, 100)", log, 8, 48452715, 1, 0);
@@ -310,7 +335,7 @@ public final class Promise03AppendTest {
     }
 
     private static void behindTheHeader(Checks checks) {
-        checks.says("the header holds hEnd = wEnd (also where drops have brought wEnd below the old hEnd)");
+        checks.says("the header holds hEnd = wEnd", "also where drops have brought wEnd below the old hEnd");
         SealedAuditLog log = Logs.filled(12, 2, 31, 4);
         checks.due("hEnd", log.header(SealedAuditLog.H_END), 48);
         for (int n = 0; n < 6; n++) {
@@ -324,8 +349,8 @@ public final class Promise03AppendTest {
     }
 
     private static void leavesTheRest(Checks checks) {
-        checks.says("Not changed by append: started, vKey, reason, R, E, and every log byte outside the "
-            + "written record(s)");
+        checks.says("Not changed by append: started, vKey, reason, R, E, and every log byte outside the written "
+            + "record(s)");
         SealedAuditLog log = Logs.filled(16, 2, 77, 1);
         log.tamper(7, log.storedByte(7) ^ 1);
         log.verify();

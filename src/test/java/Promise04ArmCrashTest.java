@@ -61,7 +61,7 @@ public final class Promise04ArmCrashTest {
     }
 
     private static void armedBeforeStart(Checks checks) {
-        checks.says("With budget = n >= 0, the next n steps of append calls are done (armed before start)");
+        checks.says("With budget = n >= 0, the next n steps of append calls are done", "armed before start");
         SealedAuditLog log = new SealedAuditLog(8, 2);
         log.armCrash(8);
         log.append(1, 1);
@@ -105,7 +105,7 @@ public final class Promise04ArmCrashTest {
     }
 
     private static void refusedAppendTakesNoStep(Checks checks) {
-        checks.says("the next n steps of append calls (a refused append has none)");
+        checks.says("the next n steps of append calls", "a refused append has none");
         SealedAuditLog log = Logs.filled(4, 2, 5, 2);
         log.armCrash(0);
         checks.due("wrong kind", log.append(0, 0), SealedAuditLog.ERR_KIND);
@@ -118,7 +118,7 @@ public final class Promise04ArmCrashTest {
     }
 
     private static void otherCallsTakeNoStep(Checks checks) {
-        checks.says("the next n steps of append calls (other calls have none)");
+        checks.says("the next n steps of append calls", "other calls have none");
         SealedAuditLog log = Logs.filled(8, 2, 5, 3);
         log.armCrash(0);
         log.start(6);
@@ -146,7 +146,7 @@ public final class Promise04ArmCrashTest {
     }
 
     private static void crashEndsIt(Checks checks) {
-        checks.says("unless budget is changed first by a successful crash()");
+        checks.says("unless budget is changed first .. by a successful crash()");
         for (int steps : new int[] {0, 4, Integer.MAX_VALUE}) {
             SealedAuditLog log = Logs.filled(8, 2, 5, 3);
             log.armCrash(steps);
@@ -156,7 +156,7 @@ public final class Promise04ArmCrashTest {
     }
 
     private static void recoverEndsIt(Checks checks) {
-        checks.says("unless budget is changed first by a recover() that is not refused");
+        checks.says("unless budget is changed first .. by a recover() that is not refused");
         for (int steps : new int[] {0, 4, Integer.MAX_VALUE}) {
             SealedAuditLog log = Logs.crashed(8, 2, 5, 3);
             log.armCrash(steps);
@@ -168,7 +168,8 @@ public final class Promise04ArmCrashTest {
     }
 
     private static void refusedCallsDoNotEndIt(Checks checks) {
-        checks.says("by a successful crash(), or by a recover() that is not refused (refused ones leave it)");
+        checks.says("by a successful crash(), or by a recover() that is not refused",
+            "refused ones leave the budget");
         SealedAuditLog fresh = new SealedAuditLog(8, 2);
         fresh.armCrash(4);
         fresh.crash();
@@ -186,7 +187,7 @@ public final class Promise04ArmCrashTest {
     }
 
     private static void crashesOnce(Checks checks) {
-        checks.says("a crash happens instead of the step after them (once: the crash disarms)");
+        checks.says("a crash happens instead of the step after them", "once: the crash disarms");
         SealedAuditLog log = Logs.torn(8, 2, 5, 1, 3);
         checks.mode("crashed", log, -1, true);
         log.recover();

@@ -21,7 +21,7 @@ public final class Promise05CrashTest {
     }
 
     private static void refusedWhileCrashed(Checks checks) {
-        checks.says("refused (answer false, nothing changes) if crashed");
+        checks.says("refused (answer false, nothing changes) .. if crashed");
         for (int steps = 0; steps <= 16; steps++) {
             SealedAuditLog log = Logs.torn(8, 2, 55, 1, steps);
             checks.refused("crash() after a crash of append", log, log::crash);
@@ -40,8 +40,9 @@ public final class Promise05CrashTest {
     }
 
     private static void crashesFromEveryState(Checks checks) {
-        checks.says("Otherwise a CRASH happens: crashed = true, budget = -1, wEnd = wTag = wSlot = wEpoch = 0; "
-            + "it answers true (empty, in mid-epoch, after a checkpoint, full; armed or not)");
+        checks.says("Otherwise a CRASH happens exactly as in Write steps: crashed = true, budget = -1, wEnd = "
+            + "wTag = wSlot = wEpoch = 0; it answers true",
+            "empty, in mid-epoch, after a checkpoint, full; armed or not");
         for (int budget : new int[] {-1, 0, 9, Integer.MAX_VALUE}) {
             for (int count = 0; count <= 6; count++) {
                 crashed(checks, Logs.filled(8, 2, 55, count), budget);
@@ -62,7 +63,7 @@ public final class Promise05CrashTest {
     }
 
     private static void canCrashAgain(Checks checks) {
-        checks.says("if crashed (no more after recover)");
+        checks.says("if crashed", "no more after recover");
         SealedAuditLog log = Logs.crashed(8, 2, 55, 3);
         log.recover();
         crashed(checks, log, -1);

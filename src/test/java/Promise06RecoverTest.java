@@ -20,6 +20,7 @@ public final class Promise06RecoverTest {
         epochNumberWraps(checks);
         wrongTag(checks);
         oldKeyAndNextKey(checks);
+        loopEnds(checks);
         rightRecords(checks);
         acceptedCheckpoint(checks);
         severalEpochsStored(checks);
@@ -60,7 +61,7 @@ public final class Promise06RecoverTest {
     }
 
     private static void emptyLog(Checks checks) {
-        checks.says("1. p = hEnd, K = hKey, prev = hTag, e = hEpoch, s = 0 (an empty log)");
+        checks.says("p = hEnd, K = hKey, prev = hTag, e = hEpoch, s = 0", "an empty log");
         for (int key : new int[] {0, 1, KEY, Integer.MIN_VALUE}) {
             SealedAuditLog log = Logs.crashed(8, 2, key, 0);
             checks.due("recover()", log.recover(), 0);
@@ -68,27 +69,29 @@ public final class Promise06RecoverTest {
         }
     }
 
+    /** A crash, and recover brings everything back. */
+    private static void broughtBack(Checks checks, SealedAuditLog log) {
+        Map<String, Integer> before = State.of(log);
+        log.crash();
+        checks.due("recover()", log.recover(), before.get("wEnd") / 8);
+        checks.unchanged("crash() and recover()", before, log);
+    }
+
     private static void headerAtTheEnd(Checks checks) {
-        checks.says("2. While p + 8 <= C (p = C: no record is read)");
+        checks.says("2. While p + 8 <= C", "p = C: no record is read");
         for (int records : new int[] {6, 9, 30}) {
             SealedAuditLog log = Logs.filled(records, 2, KEY, 20);
             checks.due("hEnd", log.header(SealedAuditLog.H_END), 8 * records);
-            Map<String, Integer> before = State.of(log);
-            log.crash();
-            checks.due("recover()", log.recover(), records);
-            checks.unchanged("crash() and recover()", before, log);
+            broughtBack(checks, log);
         }
     }
 
     private static void lastRecordOfTheLog(Checks checks) {
-        checks.says("2. While p + 8 <= C (p + 8 = C: the last record is read)");
+        checks.says("2. While p + 8 <= C", "p + 8 = C: the last record is read");
         for (int records : new int[] {4, 10, 31}) {
             SealedAuditLog log = Logs.filled(records, 2, KEY, 21);
             checks.due("wEnd", log.writer(SealedAuditLog.W_END), 8 * records);
-            Map<String, Integer> before = State.of(log);
-            log.crash();
-            checks.due("recover()", log.recover(), records);
-            checks.unchanged("crash() and recover()", before, log);
+            broughtBack(checks, log);
         }
         // A record that lies wholly outside a small log is no record of it.
         SealedAuditLog log = Logs.crashed(4, 8, KEY, 4);
@@ -115,7 +118,7 @@ public final class Promise06RecoverTest {
     }
 
     private static void zeroRecordWithARightTag(Checks checks) {
-        checks.says("b0 != 0 (with key 0, eight zero bytes have the right tag)");
+        checks.says("b0 != 0", "with key 0, eight zero bytes have the right tag");
         SealedAuditLog log = Logs.crashed(8, 2, 0, 0);
         checks.due("recover()", log.recover(), 0);
         checks.writer("recover()", log, 0, 0, 0, 0);
@@ -127,7 +130,7 @@ public final class Promise06RecoverTest {
     }
 
     private static void checkpointTooEarly(Checks checks) {
-        checks.says("(b0 == 255) equals (s == E) (a checkpoint before the epoch is full)");
+        checks.says("(b0 == 255) equals (s == E)", "a checkpoint before the epoch is full");
         forged(checks, Model.ratchet(KEY), 255, 3, 3);
         for (int length = 2; length <= 8; length++) {
             for (int slot = 0; slot < length; slot++) {
@@ -152,7 +155,7 @@ public final class Promise06RecoverTest {
     }
 
     private static void checkpointMissing(Checks checks) {
-        checks.says("(b0 == 255) equals (s == E) (a data record where the checkpoint is due)");
+        checks.says("(b0 == 255) equals (s == E)", "a data record where the checkpoint is due");
         notTheCheckpoint(checks, 254, 2, 0);
         notTheCheckpoint(checks, 1, 2, 0);
         notTheCheckpoint(checks, 0, 2, 0);
@@ -175,7 +178,7 @@ public final class Promise06RecoverTest {
     }
 
     private static void epochNumberWraps(Checks checks) {
-        checks.says("b2 * 256 + b3 == e & 0xFFFF (e of 255, 256, 65535 and more)");
+        checks.says("b2 * 256 + b3 == e & 0xFFFF", "e of 255, 256, 65535 and more");
         for (int epoch : new int[] {255, 256, 65535, 65536, 65537}) {
             SealedAuditLog whole = Logs.inEpoch(8, epoch);
             SealedAuditLog log = Logs.inEpoch(8, epoch);
@@ -214,15 +217,28 @@ public final class Promise06RecoverTest {
     }
 
     private static void oldKeyAndNextKey(Checks checks) {
-        checks.says("tag(K, ..) with K = hKey");
+        checks.says("K = hKey", "not an older or a later key");
         int key = Model.ratchet(KEY);
         forged(checks, KEY, 9, 3, 3);
         forged(checks, Model.ratchet(key), 9, 3, 3);
         forged(checks, key, 9, 3, 4);
     }
 
+    private static void loopEnds(Checks checks) {
+        checks.says("If not accepted, the loop ends.", "right records after a wrong one are zeroed");
+        SealedAuditLog log = Logs.crashed(8, 4, KEY, 1);
+        int[] wrong = Logs.record(KEY, Logs.storedTag(log, 0), 9, 7, 9);
+        int[] right = Logs.record(KEY, Logs.tagOf(wrong), 9, 2, 9);
+        int[] rightToo = Logs.record(KEY, Logs.storedTag(log, 0), 9, 3, 9);
+        Logs.plant(log, 1, wrong);
+        Logs.plant(log, 2, right);
+        Logs.plant(log, 3, rightToo);
+        checks.due("recover()", log.recover(), 1);
+        checks.unchanged("recover()", State.of(Logs.filled(8, 4, KEY, 1)), log);
+    }
+
     private static void rightRecords(Checks checks) {
-        checks.says("The record is accepted when all of these hold (kinds 1 and 254, the edges)");
+        checks.says("The record is accepted when all of these hold", "kinds 1 and 254, the edges");
         forged(checks, Model.ratchet(KEY), 1, 3, 4);
         forged(checks, Model.ratchet(KEY), 254, 3, 4);
     }
@@ -241,7 +257,7 @@ public final class Promise06RecoverTest {
     }
 
     private static void severalEpochsStored(Checks checks) {
-        checks.says("If accepted .. then p = p + 8 (over several checkpoints)");
+        checks.says("If accepted .. then p = p + 8", "over several checkpoints");
         for (int epoch : new int[] {0, 255, 65535}) {
             SealedAuditLog whole = Logs.inEpoch(16, epoch);
             SealedAuditLog log = Logs.inEpoch(16, epoch);
@@ -279,7 +295,7 @@ public final class Promise06RecoverTest {
     }
 
     private static void stateAfterIt(Checks checks) {
-        checks.says("3. crashed = false; wEnd = p, wTag = prev, wSlot = s, wEpoch = e");
+        checks.says("crashed = false; wEnd = p, wTag = prev, wSlot = s, wEpoch = e");
         for (int steps = 0; steps < 8; steps++) {
             SealedAuditLog log = Logs.torn(8, 2, KEY, 3, steps);
             checks.due("recover() after " + steps + " steps", log.recover(), 4);
@@ -305,7 +321,7 @@ public final class Promise06RecoverTest {
     }
 
     private static void checkpointJustFits(Checks checks) {
-        checks.says("4. if wSlot == E and wEnd + 8 <= C (wEnd + 8 = C)");
+        checks.says("if wSlot == E and wEnd + 8 <= C", "wEnd + 8 = C");
         for (int steps = 8; steps <= 16; steps++) {
             SealedAuditLog log = Logs.torn(6, 2, KEY, 3, steps);
             checks.due("recover() at the log's end", log.recover(), 6);
@@ -328,10 +344,7 @@ public final class Promise06RecoverTest {
         for (int pos = 0; pos < 24; pos++) {
             log.tamper(pos, 0xEE);
         }
-        Map<String, Integer> before = State.of(log);
-        log.crash();
-        checks.due("recover()", log.recover(), 4);
-        checks.unchanged("crash() and recover()", before, log);
+        broughtBack(checks, log);
     }
 
     private static void fromTheHeaderAlone(Checks checks) {
@@ -345,7 +358,7 @@ public final class Promise06RecoverTest {
     }
 
     private static void droppedBehindTheHeader(Checks checks) {
-        checks.says("the writer state comes from the header alone (drops had brought wEnd below hEnd)");
+        checks.says("the writer state comes from the header alone", "drops had brought wEnd below hEnd");
         SealedAuditLog log = Logs.filled(8, 2, KEY, 3);
         log.dropRecord(0);
         log.dropRecord(0);
@@ -359,7 +372,7 @@ public final class Promise06RecoverTest {
     }
 
     private static void checkpointBehindTheHeader(Checks checks) {
-        checks.says("(b0 == 255) equals (s == E) (a checkpoint that a drop has brought to hEnd)");
+        checks.says("(b0 == 255) equals (s == E)", "a checkpoint that a drop has brought to hEnd");
         SealedAuditLog log = Logs.filled(8, 2, KEY, 3);
         Map<String, Integer> before = State.of(log);
         log.dropRecord(0);
@@ -416,18 +429,13 @@ public final class Promise06RecoverTest {
     }
 
     private static void nothingToLose(Checks checks) {
-        checks.says("recover starts from the header, re-checks the records written after it with the header "
-            + "key (between calls, a crash takes nothing that recover does not bring back)");
+        checks.says("recover starts from the header, re-checks the records written after it with the header key",
+            "between calls, a crash takes nothing that recover does not bring back");
         for (int length = 2; length <= 8; length++) {
             for (int count = 0; count <= 31; count++) {
                 SealedAuditLog log = Logs.filled(32, length, KEY, count);
-                Map<String, Integer> before = State.of(log);
-                log.crash();
-                checks.due("recover()", log.recover(), before.get("wEnd") / 8);
-                checks.unchanged("crash() and recover()", before, log);
-                log.crash();
-                log.recover();
-                checks.unchanged("a second time", before, log);
+                broughtBack(checks, log);
+                broughtBack(checks, log);
             }
         }
     }

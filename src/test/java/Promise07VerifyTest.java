@@ -24,6 +24,7 @@ public final class Promise07VerifyTest {
         placesOfCheckpoints(checks);
         readsOnlyUpToTheEnd(checks);
         readsNothingElse(checks);
+        changesOnlyTheReason(checks);
         reasonIsSetAnew(checks);
         reasonInAnyState(checks);
         noReasonYet(checks);
@@ -48,7 +49,7 @@ public final class Promise07VerifyTest {
     }
 
     private static void crashed(Checks checks) {
-        checks.says("Refusals (reason unchanged, nothing changes): else crashed: V_CRASHED");
+        checks.says("Refusals (reason unchanged, nothing changes): .. else crashed: V_CRASHED");
         SealedAuditLog good = Logs.crashed(8, 2, KEY, 3);
         checks.refused("verify()", good, good::verify, SealedAuditLog.V_CRASHED);
         SealedAuditLog empty = Logs.crashed(8, 2, KEY, 0);
@@ -78,7 +79,7 @@ public final class Promise07VerifyTest {
     }
 
     private static void rightLogs(Checks checks) {
-        checks.says("If every record passes, the answer is V_ACCEPT");
+        checks.says("If every record passes .. the answer is V_ACCEPT");
         for (int length = 2; length <= 8; length++) {
             for (int count = 0; count <= 31; count++) {
                 accepted(checks, count + " records", Logs.filled(32, length, KEY + count, count));
@@ -87,7 +88,7 @@ public final class Promise07VerifyTest {
     }
 
     private static void fullLog(Checks checks) {
-        checks.says("for i = 0 .. wEnd/8 - 1 in order (the last record of a full log)");
+        checks.says("for i = 0 .. wEnd/8 - 1 in order", "the last record of a full log");
         for (int records : new int[] {4, 32}) {
             SealedAuditLog log = Logs.filled(records, 8, KEY, 29);
             checks.due("wEnd", log.writer(SealedAuditLog.W_END), 8 * records);
@@ -156,12 +157,6 @@ public final class Promise07VerifyTest {
         forged(checks, 2, KEY, new int[] {255, 2, 1}, SealedAuditLog.R_EPOCH);
         forged(checks, 2, KEY, new int[] {255, 2, 0}, SealedAuditLog.R_NONE);
         forged(checks, 5, key, new int[] {255, 5, 1}, SealedAuditLog.R_NONE);
-        // Written in epoch 65536, a checkpoint has payload 0, but here e = i / (E + 1) = 1.
-        SealedAuditLog log = Logs.inEpoch(8, 65536);
-        log.append(1, 1);
-        log.append(2, 2);
-        checks.bytes("checkpoint 65536", log, 40, 255, 5, 0, 0);
-        verified(checks, "records of a dropped past", log, 0, SealedAuditLog.R_TAG);
     }
 
     private static void wrongTag(Checks checks) {
@@ -190,7 +185,7 @@ public final class Promise07VerifyTest {
     }
 
     private static void checksInOrder(Checks checks) {
-        checks.says("the checks in this order are (each is seen only when those before it are mended)");
+        checks.says("the checks in this order are", "each is seen only when those before it are mended");
         SealedAuditLog log = Logs.filled(8, 2, KEY, 2);
         int tagByte = log.storedByte(23);
         int[][] changes = {{16, 0}, {17, 9}, {19, 9}, {23, tagByte ^ 1}};
@@ -211,8 +206,8 @@ public final class Promise07VerifyTest {
     }
 
     private static void everyBitCounts(Checks checks) {
-        checks.says("On the first reject: reason = that reason and the answer is i (any one bit changed, and "
-            + "put back)");
+        checks.says("On the first reject: reason = that reason and the answer is i",
+            "any one bit changed, and put back");
         SealedAuditLog log = Logs.filled(8, 2, KEY, 5);
         for (int pos = 0; pos < 56; pos++) {
             int held = log.storedByte(pos);
@@ -242,7 +237,7 @@ public final class Promise07VerifyTest {
     }
 
     private static void firstReject(Checks checks) {
-        checks.says("On the first reject the answer is i (the loop stops)");
+        checks.says("the answer is i (the loop stops)");
         SealedAuditLog log = Logs.filled(32, 2, KEY, 20);
         for (int i = 29; i >= 0; i--) {
             log.tamper(8 * i + (i % 2 == 0 ? 1 : 0), i % 2 == 0 ? 77 : 0);
@@ -253,7 +248,6 @@ public final class Promise07VerifyTest {
 
     private static void goesOnFromTheStoredTag(Checks checks) {
         checks.says("If no check rejects record i: prev = its stored tag");
-        // The last record of the log and its tag are exchanged for others that fit.
         SealedAuditLog log = Logs.filled(8, 3, KEY, 2);
         int[] first = Logs.record(KEY, 0, 99, 0, 12);
         Logs.tamper(log, 0, first);
@@ -310,8 +304,21 @@ public final class Promise07VerifyTest {
         verified(checks, "data where a checkpoint is due", other, 5, SealedAuditLog.R_ORDER);
     }
 
+    private static void changesOnlyTheReason(Checks checks) {
+        checks.says("The only state verify changes is reason.");
+        Map<String, SealedAuditLog> logs = Logs.inEveryState(8, 2, KEY);
+        for (int budget : new int[] {-1, 0, 5}) {
+            logs.forEach((state, log) -> {
+                log.armCrash(budget);
+                Map<String, Integer> before = State.of(log);
+                log.verify();
+                checks.onlyChanged("verify(), " + state, before, log, "reason");
+            });
+        }
+    }
+
     private static void reasonIsSetAnew(Checks checks) {
-        checks.says("Otherwise reason = R_NONE (an accept clears the last reason)");
+        checks.says("Otherwise reason = R_NONE", "an accept clears the last reason");
         SealedAuditLog log = Logs.filled(8, 2, KEY, 1);
         log.tamper(1, 9);
         verified(checks, "bad", log, 0, SealedAuditLog.R_SEQ);
@@ -321,8 +328,8 @@ public final class Promise07VerifyTest {
     }
 
     private static void reasonInAnyState(Checks checks) {
-        checks.says("verifyReason() answers reason as left by the last verify that was not refused. It changes "
-            + "nothing and works in any state.");
+        checks.says("verifyReason() answers reason as left by the last verify that was not refused .. It "
+            + "changes nothing and works in any state.");
         Logs.inEveryState(8, 2, KEY).forEach((state, log) -> {
             int due = state.equals("bad") ? SealedAuditLog.R_KIND
                 : state.equals("bad and crashed") ? SealedAuditLog.R_SEQ : SealedAuditLog.R_NONE;

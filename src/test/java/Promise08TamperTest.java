@@ -39,7 +39,7 @@ public final class Promise08TamperTest {
     }
 
     private static void crashed(Checks checks) {
-        checks.says("Refused if crashed");
+        checks.says("Refused (answer false, nothing changes) .. if crashed");
         refused(checks, Logs.crashed(8, 2, 3, 3), 0, 7);
         refused(checks, Logs.crashed(8, 2, 3, 3), 31, 7);
         refused(checks, Logs.torn(8, 2, 3, 1, 12), 0, 7);
@@ -49,28 +49,29 @@ public final class Promise08TamperTest {
     }
 
     private static void emptyLog(Checks checks) {
-        checks.says("Refused if pos is not in 0..wEnd-1 (an empty log)");
+        checks.says("Refused (answer false, nothing changes) .. if pos is not in 0..wEnd-1", "an empty log");
         refused(checks, Logs.started(8, 2, 3), 0, 7);
         refused(checks, Logs.started(8, 2, 3), -1, 7);
         refused(checks, Logs.started(8, 2, 3), 8, 7);
     }
 
     private static void posBelow(Checks checks) {
-        checks.says("Refused if pos is not in 0..wEnd-1 (pos below 0)");
+        checks.says("Refused (answer false, nothing changes) .. if pos is not in 0..wEnd-1", "pos below 0");
         for (int pos : new int[] {-1, -8, -32, -256, Integer.MIN_VALUE}) {
             refused(checks, Logs.filled(8, 2, 3, 3), pos, 7);
         }
     }
 
     private static void posAbove(Checks checks) {
-        checks.says("Refused if pos is not in 0..wEnd-1 (pos from wEnd on, within the capacity and beyond)");
+        checks.says("Refused (answer false, nothing changes) .. if pos is not in 0..wEnd-1",
+            "pos from wEnd on, within the capacity and beyond");
         for (int pos : new int[] {32, 33, 39, 63, 64, 255, 256, Integer.MAX_VALUE}) {
             refused(checks, Logs.filled(8, 2, 3, 3), pos, 7);
         }
     }
 
     private static void posAtTheEdges(Checks checks) {
-        checks.says("Otherwise the byte at pos becomes value and the answer is true (pos 0, wEnd-1 and all between)");
+        checks.says("Otherwise the byte at pos becomes value", "pos 0, wEnd-1 and all between");
         SealedAuditLog log = Logs.filled(8, 2, 3, 3);
         for (int pos = 0; pos < 32; pos++) {
             tampered(checks, log, pos, log.storedByte(pos) ^ 0xFF);
@@ -78,7 +79,7 @@ public final class Promise08TamperTest {
     }
 
     private static void fullLog(Checks checks) {
-        checks.says("pos is not in 0..wEnd-1 (wEnd = C)");
+        checks.says("pos is not in 0..wEnd-1", "wEnd = C");
         SealedAuditLog small = Logs.filled(4, 8, 3, 4);
         tampered(checks, small, 31, 200);
         refused(checks, small, 32, 200);
@@ -88,7 +89,7 @@ public final class Promise08TamperTest {
     }
 
     private static void afterADrop(Checks checks) {
-        checks.says("pos is not in 0..wEnd-1 (wEnd as a drop has left it)");
+        checks.says("pos is not in 0..wEnd-1", "wEnd as a drop has left it");
         SealedAuditLog log = Logs.filled(8, 2, 3, 3);
         log.dropRecord(0);
         tampered(checks, log, 23, 7);
@@ -97,7 +98,7 @@ public final class Promise08TamperTest {
     }
 
     private static void wrongValues(Checks checks) {
-        checks.says("Refused if value is not in 0..255");
+        checks.says("Refused (answer false, nothing changes) .. if value is not in 0..255");
         for (int value : new int[] {-1, -128, -256, 256, 257, 511, Integer.MIN_VALUE, Integer.MAX_VALUE}) {
             refused(checks, Logs.filled(8, 2, 3, 3), 0, value);
             refused(checks, Logs.filled(8, 2, 3, 3), 31, value);
@@ -105,7 +106,7 @@ public final class Promise08TamperTest {
     }
 
     private static void everyValue(Checks checks) {
-        checks.says("the byte at pos becomes value (0..255)");
+        checks.says("the byte at pos becomes value", "0 to 255");
         SealedAuditLog log = Logs.filled(8, 2, 3, 3);
         for (int value = 0; value <= 255; value++) {
             tampered(checks, log, 16, value);

@@ -44,7 +44,7 @@ public final class Promise09DropRecordTest {
     }
 
     private static void crashed(Checks checks) {
-        checks.says("Refused if crashed");
+        checks.says("Refused (answer false, nothing changes) .. if crashed");
         refused(checks, Logs.crashed(8, 2, 3, 3), 0);
         refused(checks, Logs.crashed(8, 2, 3, 3), 3);
         refused(checks, Logs.torn(8, 2, 3, 1, 12), 0);
@@ -54,21 +54,22 @@ public final class Promise09DropRecordTest {
     }
 
     private static void emptyLog(Checks checks) {
-        checks.says("Refused if index is not in 0..wEnd/8-1 (an empty log)");
+        checks.says("Refused (answer false, nothing changes) .. if index is not in 0..wEnd/8-1", "an empty log");
         for (int index : new int[] {-1, 0, 1}) {
             refused(checks, Logs.started(8, 2, 3), index);
         }
     }
 
     private static void indexBelow(Checks checks) {
-        checks.says("Refused if index is not in 0..wEnd/8-1 (index below 0)");
+        checks.says("Refused (answer false, nothing changes) .. if index is not in 0..wEnd/8-1", "index below 0");
         for (int index : new int[] {-1, -2, -8, -(1 << 29), Integer.MIN_VALUE}) {
             refused(checks, Logs.filled(8, 2, 3, 3), index);
         }
     }
 
     private static void indexAbove(Checks checks) {
-        checks.says("Refused if index is not in 0..wEnd/8-1 (index from wEnd/8 on)");
+        checks.says("Refused (answer false, nothing changes) .. if index is not in 0..wEnd/8-1",
+            "index from wEnd/8 on");
         // 8 * (1 << 29) wraps to 0.
         for (int index : new int[] {4, 5, 7, 8, 31, 32, 1 << 29, (1 << 29) + 1, Integer.MAX_VALUE}) {
             refused(checks, Logs.filled(8, 2, 3, 3), index);
@@ -76,28 +77,29 @@ public final class Promise09DropRecordTest {
     }
 
     private static void firstRecord(Checks checks) {
-        checks.says("for q = 8*index .. wEnd-9 in increasing order, the byte at q becomes the byte at q + 8 "
-            + "(index 0: every record moves)");
+        checks.says("for q = 8*index .. wEnd-9 in increasing order, the byte at q becomes the byte at q + 8",
+            "index 0: every record moves");
         dropped(checks, Logs.filled(8, 2, 3, 3), 0);
     }
 
     private static void lastRecord(Checks checks) {
-        checks.says("the bytes at wEnd-8..wEnd-1 become 0; wEnd = wEnd - 8 (the last record: none moves)");
+        checks.says("the bytes at wEnd-8..wEnd-1 become 0; wEnd = wEnd - 8", "the last record: none moves");
         SealedAuditLog log = Logs.filled(8, 2, 3, 3);
         dropped(checks, log, 3);
         checks.due("verify()", log.verify(), SealedAuditLog.V_ACCEPT);
     }
 
     private static void everyRecord(Checks checks) {
-        checks.says("Otherwise, for q = 8*index .. wEnd-9, the byte at q becomes the byte at q + 8; the answer "
-            + "is true");
+        checks.says("Otherwise, for q = 8*index .. wEnd-9 in increasing order, the byte at q becomes the byte "
+            + "at q + 8",
+            "every index");
         for (int index = 0; index < 8; index++) {
             dropped(checks, Logs.filled(12, 2, 3, 6), index);
         }
     }
 
     private static void onlyRecord(Checks checks) {
-        checks.says("the bytes at wEnd-8..wEnd-1 become 0; wEnd = wEnd - 8 (the only record)");
+        checks.says("the bytes at wEnd-8..wEnd-1 become 0; wEnd = wEnd - 8", "the only record");
         SealedAuditLog log = Logs.filled(8, 2, 3, 1);
         dropped(checks, log, 0);
         checks.zeros("dropped", log, 0, 64);
@@ -105,7 +107,7 @@ public final class Promise09DropRecordTest {
     }
 
     private static void fullLog(Checks checks) {
-        checks.says("index in 0..wEnd/8-1 (wEnd = C)");
+        checks.says("if index is not in 0..wEnd/8-1", "wEnd = C");
         for (int index : new int[] {0, 15, 30, 31}) {
             dropped(checks, Logs.filled(32, 8, 3, 29), index);
         }
@@ -115,7 +117,7 @@ public final class Promise09DropRecordTest {
     }
 
     private static void dropsAll(Checks checks) {
-        checks.says("wEnd = wEnd - 8 (until the log is empty)");
+        checks.says("wEnd = wEnd - 8", "until the log is empty");
         SealedAuditLog log = Logs.filled(8, 2, 3, 3);
         for (int left = 3; left >= 0; left--) {
             dropped(checks, log, 0);
@@ -152,7 +154,7 @@ public final class Promise09DropRecordTest {
     }
 
     private static void takesNoStep(Checks checks) {
-        checks.says("budget unchanged");
+        checks.says("the header, budget and reason are unchanged", "a budget of each kind");
         for (int budget : new int[] {-1, 0, 1, 5}) {
             SealedAuditLog log = Logs.filled(8, 2, 3, 3);
             log.armCrash(budget);

@@ -45,7 +45,7 @@ public final class Promise10SwapRecordsTest {
     }
 
     private static void crashed(Checks checks) {
-        checks.says("Refused if crashed");
+        checks.says("Refused (answer false, nothing changes) .. if crashed");
         refused(checks, Logs.crashed(8, 2, 3, 3), 0, 1);
         refused(checks, Logs.torn(8, 2, 3, 1, 12), 0, 1);
         SealedAuditLog log = Logs.crashed(8, 2, 3, 3);
@@ -54,13 +54,14 @@ public final class Promise10SwapRecordsTest {
     }
 
     private static void emptyLog(Checks checks) {
-        checks.says("Refused if i or j is not in 0..wEnd/8-1 (an empty log)");
+        checks.says("Refused (answer false, nothing changes) .. if i or j is not in 0..wEnd/8-1", "an empty log");
         refused(checks, Logs.started(8, 2, 3), 0, 1);
         refused(checks, Logs.started(8, 2, 3), 0, 0);
     }
 
     private static void oneRecord(Checks checks) {
-        checks.says("Refused if i or j is not in 0..wEnd/8-1 (a log of one record)");
+        checks.says("Refused (answer false, nothing changes) .. if i or j is not in 0..wEnd/8-1",
+            "a log of one record");
         SealedAuditLog log = Logs.filled(8, 2, 3, 1);
         refused(checks, log, 0, 1);
         refused(checks, log, 1, 0);
@@ -68,7 +69,7 @@ public final class Promise10SwapRecordsTest {
     }
 
     private static void firstOutside(Checks checks) {
-        checks.says("Refused if i is not in 0..wEnd/8-1");
+        checks.says("if i or j is not in 0..wEnd/8-1", "i alone");
         for (int outside : OUTSIDE) {
             refused(checks, Logs.filled(8, 2, 3, 3), outside, 0);
             refused(checks, Logs.filled(8, 2, 3, 3), outside, 3);
@@ -76,7 +77,7 @@ public final class Promise10SwapRecordsTest {
     }
 
     private static void secondOutside(Checks checks) {
-        checks.says("Refused if j is not in 0..wEnd/8-1");
+        checks.says("if i or j is not in 0..wEnd/8-1", "j alone");
         for (int outside : OUTSIDE) {
             refused(checks, Logs.filled(8, 2, 3, 3), 0, outside);
             refused(checks, Logs.filled(8, 2, 3, 3), 3, outside);
@@ -84,7 +85,7 @@ public final class Promise10SwapRecordsTest {
     }
 
     private static void bothOutside(Checks checks) {
-        checks.says("Refused if i or j is not in 0..wEnd/8-1 (neither)");
+        checks.says("Refused (answer false, nothing changes) .. if i or j is not in 0..wEnd/8-1", "neither");
         for (int i : OUTSIDE) {
             for (int j : OUTSIDE) {
                 refused(checks, Logs.filled(8, 2, 3, 3), i, j);
@@ -93,15 +94,15 @@ public final class Promise10SwapRecordsTest {
     }
 
     private static void equalIndexes(Checks checks) {
-        checks.says("Refused if i == j");
+        checks.says("or if i == j");
         for (int i = 0; i < 4; i++) {
             refused(checks, Logs.filled(8, 2, 3, 3), i, i);
         }
     }
 
     private static void everyPair(Checks checks) {
-        checks.says("the 8 bytes at 8*i..8*i+7 and the 8 bytes at 8*j..8*j+7 trade places and the answer is "
-            + "true (the first and the last record, neighbours, a checkpoint; either way round)");
+        checks.says("the 8 bytes at 8*i..8*i+7 and the 8 bytes at 8*j..8*j+7 trade places and the answer is true",
+            "the first and the last record, neighbours, a checkpoint; either way round");
         for (int i = 0; i < 4; i++) {
             for (int j = 0; j < 4; j++) {
                 if (i != j) {
@@ -112,7 +113,7 @@ public final class Promise10SwapRecordsTest {
     }
 
     private static void fullLog(Checks checks) {
-        checks.says("i or j is not in 0..wEnd/8-1 (wEnd = C)");
+        checks.says("i or j is not in 0..wEnd/8-1", "wEnd = C");
         swapped(checks, Logs.filled(32, 8, 3, 29), 0, 31);
         swapped(checks, Logs.filled(32, 8, 3, 29), 31, 30);
         refused(checks, Logs.filled(32, 8, 3, 29), 31, 32);
@@ -121,7 +122,7 @@ public final class Promise10SwapRecordsTest {
     }
 
     private static void afterADrop(Checks checks) {
-        checks.says("i or j is not in 0..wEnd/8-1 (wEnd as a drop has left it)");
+        checks.says("i or j is not in 0..wEnd/8-1", "wEnd as a drop has left it");
         SealedAuditLog log = Logs.filled(8, 2, 3, 3);
         log.dropRecord(0);
         refused(checks, log, 0, 3);
@@ -129,7 +130,7 @@ public final class Promise10SwapRecordsTest {
     }
 
     private static void swapsBack(Checks checks) {
-        checks.says("exchanges the 8 bytes of records i and j (twice: all is as before)");
+        checks.says("exchanges the 8 bytes of records i and j", "twice: all is as before");
         SealedAuditLog log = Logs.filled(8, 2, 3, 3);
         Map<String, Integer> before = State.of(log);
         log.swapRecords(1, 2);

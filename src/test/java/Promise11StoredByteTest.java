@@ -13,7 +13,7 @@ public final class Promise11StoredByteTest {
     }
 
     private static void negative(Checks checks) {
-        checks.says("else -1 (negative pos)");
+        checks.says("else -1 (negative pos");
         for (int records : new int[] {4, 9, 31, 32}) {
             SealedAuditLog log = Logs.filled(records, 2, 8, 40);
             for (int pos : new int[] {-1, -2, -8, -256, Integer.MIN_VALUE}) {
@@ -23,7 +23,7 @@ public final class Promise11StoredByteTest {
     }
 
     private static void fromTheCapacityOn(Checks checks) {
-        checks.says("else -1 (pos >= C)");
+        checks.says("else -1 .. and pos >= C)");
         for (int records = 4; records <= 32; records++) {
             SealedAuditLog log = Logs.filled(records, 2, 8, 40);
             for (int pos = 8 * records; pos <= 258; pos++) {
@@ -35,7 +35,7 @@ public final class Promise11StoredByteTest {
     }
 
     private static void edges(Checks checks) {
-        checks.says("it answers the log byte at pos as a value in 0..255 if pos is in 0..C-1 (pos 0 and C-1)");
+        checks.says("it answers the log byte at pos as a value in 0..255 if pos is in 0..C-1", "pos 0 and C-1");
         for (int records : new int[] {4, 32}) {
             SealedAuditLog log = Logs.filled(records, 8, 8, 29);
             log.tamper(0, 201);
@@ -46,7 +46,7 @@ public final class Promise11StoredByteTest {
     }
 
     private static void afterTheEnd(Checks checks) {
-        checks.says("if pos is in 0..C-1 (also at wEnd and beyond)");
+        checks.says("if pos is in 0..C-1", "also at wEnd and beyond");
         SealedAuditLog log = Logs.filled(8, 2, 8, 1);
         checks.zeros("no record yet", log, 8, 64);
         checks.due("byte after the last", log.storedByte(64), -1);
@@ -62,7 +62,7 @@ public final class Promise11StoredByteTest {
     }
 
     private static void tornRecord(Checks checks) {
-        checks.says("works in any state (crashed: the bytes of a torn record can be read)");
+        checks.says("works in any state", "crashed: the bytes of a torn record can be read");
         SealedAuditLog log = Logs.started(4, 2, 8);
         log.armCrash(3);
         log.append(5, 0xFEDC);
@@ -70,7 +70,7 @@ public final class Promise11StoredByteTest {
     }
 
     private static void inAnyState(Checks checks) {
-        checks.says("works in any state; it changes nothing");
+        checks.says("works in any state .. It changes nothing.");
         Logs.inEveryState(8, 2, 8).forEach((state, log) -> {
             checks.inert("storedByte(-1), " + state, log, () -> log.storedByte(-1), -1);
             checks.inert("storedByte(64), " + state, log, () -> log.storedByte(64), -1);

@@ -37,7 +37,7 @@ public final class Promise13WriterTest {
     }
 
     private static void budgets(Checks checks) {
-        checks.says("W_BUDGET answers budget (-1 = disarmed)");
+        checks.says("W_BUDGET answers budget", "-1 when disarmed");
         SealedAuditLog log = new SealedAuditLog(8, 2);
         checks.due("new", log.writer(SealedAuditLog.W_BUDGET), -1);
         for (int[] pair : new int[][] {{0, 0}, {Integer.MAX_VALUE, Integer.MAX_VALUE}, {Integer.MIN_VALUE, -1}}) {
@@ -47,7 +47,7 @@ public final class Promise13WriterTest {
     }
 
     private static void capacities(Checks checks) {
-        checks.says("W_CAPACITY answers C; W_EPOCH_LENGTH answers E (least and greatest)");
+        checks.says("W_CAPACITY answers C; W_EPOCH_LENGTH answers E", "least and greatest");
         read(checks, "least", new SealedAuditLog(4, 2), 0, 0, 0, 0, -1, 0, 0, 32, 2);
         read(checks, "below", new SealedAuditLog(3, 1), 0, 0, 0, 0, -1, 0, 0, 32, 2);
         read(checks, "greatest", new SealedAuditLog(32, 8), 0, 0, 0, 0, -1, 0, 0, 256, 8);

@@ -21,6 +21,8 @@ public final class TermsTest {
         firstPrevIsZero(checks);
         sealsWithTheWritersTag(checks);
         slots(checks);
+        verifiersKeyStays(checks);
+        sealsWithTheHeadersKey(checks);
         crashLosesTheVolatile(checks);
         budgetZero(checks);
         budgetAboveZero(checks);
@@ -116,7 +118,7 @@ public final class TermsTest {
     }
 
     private static void knownTags(Checks checks) {
-        checks.says("tag(k, prev, b0, b1, b2, b3); ratchet(k)");
+        checks.says("ratchet(k) = .. tag(k, prev, b0, b1, b2, b3): s = k ^ prev", "values worked out outside Java");
         SealedAuditLog log = Logs.started(8, 2, 12345);
         log.append(1, 100);
         log.append(2, 200);
@@ -129,14 +131,14 @@ public final class TermsTest {
     }
 
     private static void ratchetsFixedPoint(Checks checks) {
-        checks.says("ratchet(k) = mix(k ^ 0x6A09E667) ^ k (mix(0) is 0, so this one key stays)");
+        checks.says("ratchet(k) = mix(k ^ 0x6A09E667) ^ k", "mix(0) is 0, so this one key stays");
         SealedAuditLog log = Logs.filled(8, 2, 0x6A09E667, 3);
         checks.header("one epoch", log, 24, 0x6A09E667, Logs.storedTag(log, 2), 1);
         checks.due("verify()", log.verify(), SealedAuditLog.V_ACCEPT);
     }
 
     private static void tagZero(Checks checks) {
-        checks.says("s = mix(s ^ b3); answer s (a tag may be 0)");
+        checks.says("s = mix(s ^ b3); answer s", "a tag may be 0");
         SealedAuditLog log = Logs.started(8, 2, 1);
         checks.due("append(1, 0)", log.append(1, 0), 0);
         checks.bytes("record with tag 0", log, 0, 1, 0, 0, 0, 0, 0, 0, 0);
@@ -148,8 +150,8 @@ public final class TermsTest {
     }
 
     private static void epochs(Checks checks) {
-        checks.says("The log is a run of epochs: E data records, then one checkpoint record whose payload is "
-            + "the epoch number; all records of epoch e, its checkpoint included, are sealed with key K_e");
+        checks.says("The log is a run of epochs: E data records, then one checkpoint record .. All records of "
+            + "epoch e, its checkpoint included, are sealed with key K_e");
         for (int length = 2; length <= 8; length++) {
             SealedAuditLog log = Logs.filled(32, length, 2024, 31);
             int key = 2024;
@@ -159,7 +161,7 @@ public final class TermsTest {
                 boolean last = i % (length + 1) == length;
                 count += last ? 0 : 1;
                 int epoch = i / (length + 1);
-                int[] due = last ? Logs.record(key, prev, 255, i, epoch) : Logs.record(key, prev, count, i, 1000 + count);
+                int[] due = Logs.record(key, prev, last ? 255 : count, i, last ? epoch : 1000 + count);
                 checks.bytes("E = " + length + ", record " + i, log, 8 * i, due);
                 prev = Logs.tagOf(due);
                 key = last ? Model.ratchet(key) : key;
@@ -192,7 +194,7 @@ public final class TermsTest {
     }
 
     private static void sealsWithTheWritersTag(Checks checks) {
-        checks.says("t = tag(hKey, wTag, b0, b1, b2, b3) (also for a record 0 written anew after a drop)");
+        checks.says("t = tag(hKey, wTag, b0, b1, b2, b3)", "also for a record 0 written anew after a drop");
         SealedAuditLog log = Logs.filled(8, 3, 606, 1);
         int tag = log.writer(SealedAuditLog.W_TAG);
         log.dropRecord(0);
@@ -214,8 +216,33 @@ public final class TermsTest {
         }
     }
 
+    private static void verifiersKeyStays(Checks checks) {
+        checks.says("vKey (the verifier's copy of the initial key, never changed after start)");
+        SealedAuditLog log = Logs.started(32, 2, 88);
+        for (int epoch = 0; epoch < 10; epoch++) {
+            log.append(1, epoch);
+            log.armCrash(8 + epoch % 9);
+            log.append(2, epoch);
+            log.start(99);
+            log.recover();
+            checks.due("verify() after epoch " + epoch, log.verify(), SealedAuditLog.V_ACCEPT);
+            checks.due("hEpoch", log.header(SealedAuditLog.H_EPOCH), epoch + 1);
+        }
+    }
+
+    private static void sealsWithTheHeadersKey(Checks checks) {
+        checks.says("The writer always seals with hKey.");
+        SealedAuditLog log = Logs.crashed(32, 3, 88, 7);
+        log.recover();
+        int key = Model.ratchet(Model.ratchet(88));
+        checks.due("hKey", log.header(SealedAuditLog.H_KEY), key);
+        int prev = log.writer(SealedAuditLog.W_TAG);
+        checks.due("append", log.append(5, 6), 9);
+        checks.bytes("append after recover()", log, 72, Logs.record(key, prev, 5, 9, 6));
+    }
+
     private static void crashLosesTheVolatile(Checks checks) {
-        checks.says("Durable (kept by a crash): the log bytes and the header. Volatile writer state (all set "
+        checks.says("Durable (kept by a crash): the log bytes and the header .. Volatile writer state (all set "
             + "to 0 by a crash)");
         SealedAuditLog log = Logs.filled(8, 2, 50, 3);
         log.armCrash(0);
@@ -226,8 +253,8 @@ public final class TermsTest {
     }
 
     private static void budgetZero(Checks checks) {
-        checks.says("if budget == 0 a CRASH happens instead: the step is not done, crashed = true, budget = "
-            + "-1, and the call does no further work");
+        checks.says("if budget == 0 a CRASH happens instead: the step is not done, crashed = true, budget = -1 "
+            + ".. and the call does no further work");
         SealedAuditLog log = Logs.started(8, 2, 5);
         log.armCrash(0);
         checks.due("append", log.append(1, 0xFFFF), SealedAuditLog.ERR_LOST);
@@ -289,7 +316,7 @@ public final class TermsTest {
     }
 
     private static void lastRecordOfTheLog(Checks checks) {
-        checks.says("b1 = (p / 8) & 0xFF (at the log's last offset)");
+        checks.says("b1 = (p / 8) & 0xFF", "at the log's last offset");
         SealedAuditLog log = Logs.filled(32, 8, 5, 28);
         int prev = log.writer(SealedAuditLog.W_TAG);
         checks.due("append", log.append(77, 88), 31);
